@@ -1002,12 +1002,12 @@ public final class GlassHall {
             return sum;
         }
 
-        // Each cut asks for one part more than it fills; a node's last part is where none is asked for any more.
+        // A cut fills one place and leaves two open: with the last one filled, all nodes below have come.
         int endOf(int from) {
-            int asked = 1;
+            int places = 1;
             int i = from;
-            while (i < size && asked > 0) {
-                asked += isCut(i) ? 1 : -1;
+            while (i < size && places > 0) {
+                places += isCut(i) ? 1 : -1;
                 i++;
             }
             return i;
