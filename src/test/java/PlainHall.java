@@ -332,7 +332,8 @@ final class PlainHall {
         Node n = s.nodes.get(i);
         argue(what < 0 || what > 8);
         int[] told = {
-            n.kind, n.at.x, n.at.y, n.at.w, n.at.h, n.mark, s.nodes.indexOf(n.first), s.nodes.indexOf(n.second), n.state,
+            n.kind, n.at.x, n.at.y, n.at.w, n.at.h, n.mark,
+            s.nodes.indexOf(n.first), s.nodes.indexOf(n.second), n.state,
         };
         return told[what];
     }

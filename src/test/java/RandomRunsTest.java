@@ -48,7 +48,10 @@ public final class RandomRunsTest {
     }
 
     private int length() {
-        return random.nextInt(60) == 0 ? random.nextInt(9000) - 1000 : unit * (1 + random.nextInt(random.nextInt(12) + 1));
+        if (random.nextInt(60) == 0) {
+            return random.nextInt(9000) - 1000;
+        }
+        return unit * (1 + random.nextInt(random.nextInt(12) + 1));
     }
 
     private int small(int bound) {
@@ -66,7 +69,8 @@ public final class RandomRunsTest {
             case 0:
                 return trySheet(length() + unit * random.nextInt(10), length() + unit * random.nextInt(10));
             case 1:
-                return random.nextInt(flawsSeldom) > 0 || tryFlaw(id, length() - unit, length() - unit, length(), length());
+                return random.nextInt(flawsSeldom) > 0
+                        || tryFlaw(id, length() - unit, length() - unit, length(), length());
             case 2:
                 return tryOrder(length(), length(), random.nextBoolean(), small(7));
             case 3:
