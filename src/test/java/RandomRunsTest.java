@@ -3,7 +3,7 @@ import java.util.Random;
 /** All promises: runs of calls, drawn from written seeds, on the program and on the plain hall beside it. */
 public final class RandomRunsTest {
     private static final int RUNS = 4000;
-    private static final int CALLS = 512;
+    private static final int STEPS = 512;
 
     private final Random random;
     private final GlassHall hall = new GlassHall();
@@ -28,7 +28,7 @@ public final class RandomRunsTest {
     }
 
     private boolean agrees() {
-        for (int i = 0; i < CALLS; i++) {
+        for (int i = 0; i < STEPS; i++) {
             if (!step() || !accountsAgree()) {
                 return false;
             }
