@@ -4,9 +4,7 @@ import java.util.List;
 import java.util.NoSuchElementException;
 
 /** The document once more, word by word and without any care for room, to hold the program against. */
-final class PlainHall {
-    private static final int NONE = -1;
-
+final class PlainHall implements Hall {
     record Rect(int x, int y, int w, int h) {
         boolean meets(Rect o) {
             return Math.min(x + w, o.x + o.w) > Math.max(x, o.x) && Math.min(y + h, o.y + o.h) > Math.max(y, o.y);
@@ -91,7 +89,8 @@ final class PlainHall {
         return s;
     }
 
-    int sheet(int w, int h) {
+    @Override
+    public int sheet(int w, int h) {
         argue(w < 1 || w > 6000 || h < 1 || h > 6000);
         state(sheets.size() == 8);
         Sheet s = new Sheet();
@@ -107,7 +106,8 @@ final class PlainHall {
         return s.id;
     }
 
-    int flaw(int id, int x, int y, int w, int h) {
+    @Override
+    public int flaw(int id, int x, int y, int w, int h) {
         Sheet s = find(id);
         argue(w < 1 || h < 1 || x < 0 || y < 0 || (long) x + w > s.w || (long) y + h > s.h);
         state(s.nodes != null || s.flaws.size() == 6);
@@ -115,7 +115,8 @@ final class PlainHall {
         return s.flaws.size();
     }
 
-    int order(int w, int h, boolean turn, int n) {
+    @Override
+    public int order(int w, int h, boolean turn, int n) {
         argue(w < 1 || w > 6000 || h < 1 || h > 6000 || n < 1 || n > 6);
         state(orders.size() == 6);
         Order o = new Order();
@@ -129,7 +130,8 @@ final class PlainHall {
         return orders.size() - 1;
     }
 
-    int plan(int id) {
+    @Override
+    public int plan(int id) {
         Sheet s = find(id);
         state(s.nodes != null);
         List<List<List<Placed>>> columns = new ArrayList<>();
@@ -184,7 +186,8 @@ final class PlainHall {
         return null;
     }
 
-    int exact(int id, int a, int b, int c) {
+    @Override
+    public int exact(int id, int a, int b, int c) {
         Sheet s = find(id);
         List<Integer> named = new ArrayList<>(List.of(a));
         for (int n : new int[] {b, c}) {
@@ -327,7 +330,8 @@ final class PlainHall {
         return n;
     }
 
-    int node(int id, int i, int what) {
+    @Override
+    public int node(int id, int i, int what) {
         Sheet s = planned(id);
         Node n = s.nodes.get(i);
         argue(what < 0 || what > 8);
@@ -338,11 +342,13 @@ final class PlainHall {
         return told[what];
     }
 
-    int nodes(int id) {
+    @Override
+    public int nodes(int id) {
         return planned(id).nodes.size();
     }
 
-    int score(int id) {
+    @Override
+    public int score(int id) {
         Sheet s = planned(id);
         s.scored = true;
         for (int i = 0; i < s.nodes.size(); i++) {
@@ -394,7 +400,8 @@ final class PlainHall {
         }
     }
 
-    int broke(int id, int node) {
+    @Override
+    public int broke(int id, int node) {
         Sheet s = planned(id);
         Node n = s.nodes.get(node);
         state(n.state != 1);
@@ -416,7 +423,8 @@ final class PlainHall {
         return reopen(n.first) + reopen(n.second);
     }
 
-    int cancel(int id) {
+    @Override
+    public int cancel(int id) {
         Sheet s = planned(id);
         state(s.scored);
         int count = reopen(s.nodes.get(0));
@@ -429,38 +437,44 @@ final class PlainHall {
         return rack.get(k);
     }
 
-    int use(int k) {
+    @Override
+    public int use(int k) {
         Sheet o = offcut(k);
         state(sheets.size() == 8);
         rack.remove(k);
         return enter(o);
     }
 
-    int rack(int k, int what) {
+    @Override
+    public int rack(int k, int what) {
         Sheet o = offcut(k);
         argue(what < 0 || what > 2);
         return what == 0 ? o.w : what == 1 ? o.h : o.flaws.size();
     }
 
-    int fit(int w, int h) {
+    @Override
+    public int fit(int w, int h) {
         return rack.stream().filter(o -> o.w >= w && o.h >= h || o.h >= w && o.w >= h)
                 .min(Comparator.comparingInt((Sheet o) -> o.w * o.h).thenComparingInt(rack::indexOf)).map(rack::indexOf)
                 .orElse(NONE);
     }
 
-    int flawed(int id, int k, int what) {
+    @Override
+    public int flawed(int id, int k, int what) {
         Rect f = find(id).flaws.get(k);
         argue(what < 0 || what > 3);
         return new int[] {f.x, f.y, f.w, f.h}[what];
     }
 
-    int panes(int order, int what) {
+    @Override
+    public int panes(int order, int what) {
         there(order >= 0 && order < orders.size());
         argue(what < 0 || what > 2);
         return orders.get(order).count(what);
     }
 
-    long area(int kind) {
+    @Override
+    public long area(int kind) {
         switch (kind) {
             case 0:
                 return sheets.stream().filter(s -> s.nodes == null).mapToLong(s -> (long) s.w * s.h).sum();
@@ -474,7 +488,8 @@ final class PlainHall {
         }
     }
 
-    int total(int what) {
+    @Override
+    public int total(int what) {
         int planned = (int) sheets.stream().filter(s -> s.nodes != null).count();
         int[] told = {sheets.size(), planned, orders.size(), rack.size(), ids};
         return what >= 0 && what < told.length ? told[what] : NONE;

@@ -1,215 +1,326 @@
-import java.util.NoSuchElementException;
-
-/** Promises 5 (plan), 7 (node) and 8 (nodes). */
+/** Promise 5, plan, and what the terms say of strips and of meeting a flaw. */
 public final class PlanTest {
     public static void main(String[] args) {
-        stripsMakeATree();
-        ordersComeByHeightWidthAndNumber();
-        panesAreTurnedWhenTheyMay();
+        ordersComeByFallingHeight();
+        ordersOfTheSameHeightComeByFallingWidth();
+        ordersOfTheSameSizeComeByNumbers();
+        heightsAreThoseOfPanesThatAreNotTurned();
+        panesComeAsTheyAreBeforeTheyAreTurned();
         turnedPanesComeBeforeTheNextOrder();
-        panesKeepClearOfFlaws();
-        flawsAtEdgesDoNotMatter();
-        flawsAtLeftAndBelowDoNotMatter();
-        columnsBoundTheirRooms();
-        piecesOfTheSameSizeAreNotCut();
+        panesThatMayNotAreNotTurned();
+        squaresThatMayBeTurnedAreTaken();
+        eachSpotBeginsWithTheFirstOrder();
+        panesAreNoWiderThanTheSheet();
+        panesAreNoHigherThanTheSheet();
+        otherColumnsHaveRoomUpToTheRightEdge();
+        otherSpotsAreAsWideAsTheColumn();
+        otherSpotsHaveRoomUpToTheUpperEdge();
+        aColumnEndsWhereNoPaneIsTaken();
+        noColumnComesAfterOneWithoutAPane();
+        flawsAtTheRightEdgeAreNotMet();
+        flawsAtTheUpperEdgeAreNotMet();
+        flawsAtTheLeftEdgeAreNotMet();
+        flawsAtTheLowerEdgeAreNotMet();
+        flawsAtACornerAreNotMet();
+        flawsInsideAndAroundAreMet();
+        everyFlawCounts();
         onlyOpenPanesAreTaken();
-        noneMayBeTaken();
-        wholeSheetIsAPane();
-        thirtySixPanesMakeTheLargestTree();
-        planRefuses();
-        nodeRefusesInOrder();
+        noneAndNothingChanges();
+        aSheetThatHadNoneIsPlannedLater();
+        thirtySixPanes();
+        plannedSheetsAreRefused();
+        noSuchSheetIsRefused();
         Check.end();
     }
 
-    private static void stripsMakeATree() {
-        GlassHall hall = new GlassHall();
-        hall.order(40, 30, false, 2);
-        hall.order(25, 20, false, 1);
-        hall.sheet(100, 90);
-        Check.same("panes in strips", hall.plan(0), 3);
-        Check.same("nodes", hall.nodes(0), 11);
-        Trees.areAs("tree of strips", hall, 0,
-                "X 0 0 100 90 40 1 10 1",
-                "- 0 0 40 90 30 2 3 0",
-                "P 0 0 40 30 0 -1 -1 0",
-                "- 0 30 40 60 30 4 5 0",
-                "P 0 30 40 30 0 -1 -1 0",
-                "- 0 60 40 30 20 6 9 0",
-                "X 0 60 40 20 25 7 8 0",
-                "P 0 60 25 20 1 -1 -1 0",
-                ". 25 60 15 20 -1 -1 -1 0",
-                ". 0 80 40 10 -1 -1 -1 0",
-                ". 40 0 60 90 -1 -1 -1 0");
+    private static int[] order(int w, int h, int n) {
+        return new int[] {w, h, 0, n};
     }
 
-    private static void ordersComeByHeightWidthAndNumber() {
-        GlassHall hall = new GlassHall();
-        hall.order(10, 20, false, 1);
-        hall.order(30, 20, false, 1);
-        hall.order(5, 50, false, 1);
-        hall.order(30, 20, false, 1);
-        hall.order(60, 10, false, 1);
-        hall.sheet(200, 50);
-        Check.same("panes", hall.plan(0), 5);
-        Check.same("orders of the panes", ordersOf(hall, 0), "2 1 3 0 4 ");
+    private static int[] turning(int w, int h, int n) {
+        return new int[] {w, h, 1, n};
     }
 
-    private static String ordersOf(GlassHall hall, int id) {
-        StringBuilder text = new StringBuilder();
-        for (int i = 0; i < hall.nodes(id); i++) {
-            if (hall.node(id, i, 0) == 2) {
-                text.append(hall.node(id, i, 5)).append(' ');
-            }
+    private static int[] flaw(int x, int y, int w, int h) {
+        return new int[] {x, y, w, h};
+    }
+
+    private static Hall hallOf(int w, int h, int[][] orders, int[]... flaws) {
+        Hall hall = new CountedHall();
+        hall.sheet(w, h);
+        for (int[] f : flaws) {
+            hall.flaw(0, f[0], f[1], f[2], f[3]);
         }
-        return text.toString();
+        for (int[] o : orders) {
+            hall.order(o[0], o[1], o[2] == 1, o[3]);
+        }
+        return hall;
     }
 
-    private static void panesAreTurnedWhenTheyMay() {
-        GlassHall hall = new GlassHall();
-        hall.order(50, 20, false, 1);
-        hall.order(50, 20, true, 1);
-        hall.sheet(30, 60);
-        Check.same("the turned pane alone", hall.plan(0), 1);
-        Trees.areAs("tree of a turned pane", hall, 0,
-                "X 0 0 30 60 20 1 4 1",
-                "- 0 0 20 60 50 2 3 0",
-                "P 0 0 20 50 1 -1 -1 0",
-                ". 0 50 20 10 -1 -1 -1 0",
-                ". 20 0 10 60 -1 -1 -1 0");
-        hall.cancel(0);
-        hall.sheet(60, 25);
-        hall.plan(1);
-        Check.same("a pane as it is comes first", hall.node(1, 2, 3), 50);
+    /** Plans a sheet and tells the panes that are in it, each as order:x,y,w,h. */
+    private static String strips(int w, int h, int[][] orders, int[]... flaws) {
+        Hall hall = hallOf(w, h, orders, flaws);
+        int answer = hall.plan(0);
+        if (answer == 0) {
+            return "none";
+        }
+        String panes = Trees.panes(hall, 0);
+        Check.same("how many panes of " + panes, answer, panes.split(" ").length);
+        return panes;
+    }
+
+    /** "orders with open panes come by falling height". */
+    private static void ordersComeByFallingHeight() {
+        Check.same("heights of 20, 21 and 19",
+                strips(30, 21, new int[][] {order(10, 20, 1), order(10, 21, 1), order(10, 19, 1)}),
+                "1:0,0,10,21 0:10,0,10,20 2:20,0,10,19");
+        Check.same("a high narrow one and a low wide one",
+                strips(100, 50, new int[][] {order(90, 10, 1), order(5, 11, 1)}),
+                "1:0,0,5,11 0:5,0,90,10");
+    }
+
+    /** "of the same by falling width". */
+    private static void ordersOfTheSameHeightComeByFallingWidth() {
+        Check.same("widths of 20, 21 and 19",
+                strips(60, 20, new int[][] {order(20, 20, 1), order(21, 20, 1), order(19, 20, 1)}),
+                "1:0,0,21,20 0:21,0,20,20 2:41,0,19,20");
+    }
+
+    /** "of the same by numbers". */
+    private static void ordersOfTheSameSizeComeByNumbers() {
+        int[][] orders = new int[6][];
+        for (int i = 0; i < 6; i++) {
+            orders[i] = order(10, 10, 1);
+        }
+        Check.same("six orders alike", strips(60, 10, orders),
+                "0:0,0,10,10 1:10,0,10,10 2:20,0,10,10 3:30,0,10,10 4:40,0,10,10 5:50,0,10,10");
+        orders[2] = order(10, 10, 3);
+        Check.same("all panes of one before the next", strips(60, 10, orders),
+                "0:0,0,10,10 1:10,0,10,10 2:20,0,10,10 2:30,0,10,10 2:40,0,10,10 3:50,0,10,10");
+    }
+
+    private static void heightsAreThoseOfPanesThatAreNotTurned() {
+        Check.same("a low order that may be turned",
+                strips(70, 50, new int[][] {turning(50, 10, 1), order(20, 30, 1)}),
+                "1:0,0,20,30 0:20,0,50,10");
+    }
+
+    /** "each as it is, and then turned, if it may be". */
+    private static void panesComeAsTheyAreBeforeTheyAreTurned() {
+        Check.same("room for both ways", strips(20, 20, new int[][] {turning(20, 10, 1)}), "0:0,0,20,10");
+        Check.same("room as it is alone", strips(20, 10, new int[][] {turning(20, 10, 1)}), "0:0,0,20,10");
+        Check.same("room when turned alone", strips(10, 20, new int[][] {turning(20, 10, 1)}), "0:0,0,10,20");
+        Check.same("both ways in one plan", strips(30, 20, new int[][] {turning(20, 10, 3)}),
+                "0:0,0,20,10 0:0,10,20,10 0:20,0,10,20");
     }
 
     private static void turnedPanesComeBeforeTheNextOrder() {
-        GlassHall hall = new GlassHall();
-        hall.order(35, 35, false, 1);
-        hall.order(30, 40, true, 1);
-        hall.sheet(45, 36);
-        Check.same("room for one", hall.plan(0), 1);
-        Check.same("the higher order, turned", ordersOf(hall, 0), "1 ");
+        Check.same("room for one of two",
+                strips(45, 36, new int[][] {order(35, 35, 1), turning(30, 40, 1)}), "1:0,0,40,30");
     }
 
-    private static void panesKeepClearOfFlaws() {
-        GlassHall hall = new GlassHall();
-        hall.order(40, 40, false, 6);
-        hall.order(10, 10, false, 1);
-        hall.sheet(100, 100);
-        hall.flaw(0, 30, 30, 5, 5);
-        Check.same("no column after one that has none", hall.plan(0), 1);
-        Check.same("the pane that is clear of the flaw", ordersOf(hall, 0), "1 ");
-        hall.cancel(0);
-        hall.sheet(100, 100);
-        hall.flaw(1, 10, 55, 5, 5);
-        Check.same("a column that ends below a flaw", hall.plan(1), 4);
-        Check.same("its orders", ordersOf(hall, 1), "0 1 0 0 ");
+    private static void panesThatMayNotAreNotTurned() {
+        Check.same("room when turned alone", strips(10, 20, new int[][] {order(20, 10, 1)}), "none");
     }
 
-    private static void flawsAtEdgesDoNotMatter() {
-        GlassHall hall = new GlassHall();
-        hall.order(40, 40, false, 6);
-        hall.sheet(80, 80);
-        hall.flaw(0, 40, 40, 1, 1);
-        Check.same("panes round a flaw", hall.plan(0), 3);
-        hall.cancel(0);
-        hall.sheet(80, 80);
-        hall.flaw(1, 39, 39, 1, 1);
-        Check.same("a flaw in the first corner", hall.plan(1), 0);
-        hall.sheet(80, 80);
-        hall.flaw(2, 0, 79, 1, 1);
-        hall.flaw(2, 79, 0, 1, 1);
-        Check.same("a flaw at the top and one at the right", hall.plan(2), 1);
+    private static void squaresThatMayBeTurnedAreTaken() {
+        Check.same("a square", strips(20, 40, new int[][] {turning(20, 20, 3)}), "0:0,0,20,20 0:0,20,20,20");
     }
 
-    private static void flawsAtLeftAndBelowDoNotMatter() {
-        GlassHall hall = new GlassHall();
-        hall.order(40, 40, false, 4);
-        hall.sheet(80, 80);
-        hall.flaw(0, 35, 45, 5, 5);
-        Check.same("a flaw that ends where a pane begins", hall.plan(0), 3);
-        hall.order(20, 10, false, 1);
-        hall.order(40, 8, false, 1);
-        hall.sheet(40, 60);
-        hall.flaw(1, 30, 45, 5, 5);
-        Check.same("a flaw that ends below a pane", hall.plan(1), 3);
-        Check.same("its orders", ordersOf(hall, 1), "0 1 2 ");
+    /** "At a spot the first pane is taken": also when a later order was taken below. */
+    private static void eachSpotBeginsWithTheFirstOrder() {
+        Check.same("a flaw that only the small one does not meet",
+                strips(40, 100, new int[][] {order(30, 10, 1), order(40, 40, 1), order(40, 50, 1)},
+                        flaw(35, 50, 5, 5)),
+                "2:0,0,40,50 0:0,50,30,10 1:0,60,40,40");
     }
 
-    private static void columnsBoundTheirRooms() {
-        GlassHall hall = new GlassHall();
-        hall.order(20, 50, false, 1);
-        hall.order(30, 40, false, 1);
-        hall.sheet(60, 100);
-        Check.same("two columns", hall.plan(0), 2);
-        Check.same("width of the first column", hall.node(0, 0, 5), 20);
-        Check.same("x of the second column", hall.node(0, 4, 1), 20);
-        Check.same("width of what remains", hall.node(0, 4, 3), 40);
-        Check.same("width of the second column", hall.node(0, 4, 5), 30);
+    /** "no wider ... than the room there": a column's first spot, "its room up to the right and upper edges". */
+    private static void panesAreNoWiderThanTheSheet() {
+        int[][] asItIs = {order(100, 50, 1)};
+        Check.same("just as wide", strips(100, 60, asItIs), "0:0,0,100,50");
+        Check.same("too wide by 1", strips(99, 60, asItIs), "none");
+        int[][] turned = {turning(70, 100, 1)};
+        Check.same("just as wide when turned", strips(100, 99, turned), "0:0,0,100,70");
+        Check.same("too wide by 1 when turned", strips(99, 99, turned), "none");
     }
 
-    private static void piecesOfTheSameSizeAreNotCut() {
-        GlassHall hall = new GlassHall();
-        hall.order(20, 50, false, 1);
-        hall.order(20, 40, false, 1);
-        hall.order(15, 90, false, 1);
-        hall.sheet(35, 90);
-        Check.same("panes that fill the sheet", hall.plan(0), 3);
-        Trees.areAs("tree without rests", hall, 0,
-                "X 0 0 35 90 15 1 2 1",
-                "P 0 0 15 90 2 -1 -1 0",
-                "- 15 0 20 90 50 3 4 0",
-                "P 15 0 20 50 0 -1 -1 0",
-                "P 15 50 20 40 1 -1 -1 0");
+    /** "and no higher than the room there". */
+    private static void panesAreNoHigherThanTheSheet() {
+        int[][] asItIs = {order(50, 100, 1)};
+        Check.same("just as high", strips(60, 100, asItIs), "0:0,0,50,100");
+        Check.same("too high by 1", strips(60, 99, asItIs), "none");
+        int[][] turned = {turning(100, 70, 1)};
+        Check.same("just as high when turned", strips(99, 100, turned), "0:0,0,70,100");
+        Check.same("too high by 1 when turned", strips(99, 99, turned), "none");
     }
 
-    private static void onlyOpenPanesAreTaken() {
-        GlassHall hall = new GlassHall();
-        hall.order(10, 10, false, 3);
-        hall.sheet(20, 10);
-        hall.sheet(20, 10);
-        hall.sheet(20, 10);
-        Check.same("first sheet", hall.plan(0), 2);
-        Check.same("second sheet", hall.plan(1), 1);
-        Check.same("third sheet", hall.plan(2), 0);
-        hall.cancel(0);
-        Check.same("third sheet again", hall.plan(2), 2);
+    /** "The first column begins at x = 0, each other one where the one before ends". */
+    private static void otherColumnsHaveRoomUpToTheRightEdge() {
+        int[][] two = {order(60, 50, 1), order(40, 50, 1)};
+        Check.same("just as wide as what is left", strips(100, 50, two), "0:0,0,60,50 1:60,0,40,50");
+        Check.same("wider by 1 than what is left", strips(99, 50, two), "0:0,0,60,50");
+        int[][] three = {order(60, 50, 1), order(30, 50, 1), order(10, 50, 1)};
+        Check.same("a third just as wide", strips(100, 50, three), "0:0,0,60,50 1:60,0,30,50 2:90,0,10,50");
+        Check.same("a third wider by 1", strips(99, 50, three), "0:0,0,60,50 1:60,0,30,50");
     }
 
-    private static void noneMayBeTaken() {
-        GlassHall hall = new GlassHall();
-        hall.sheet(100, 100);
-        Check.same("plan without orders", hall.plan(0), 0);
-        hall.order(101, 1, false, 1);
-        hall.order(1, 101, false, 1);
-        Check.same("plan without fitting orders", hall.plan(0), 0);
-        Check.same("planned sheets", hall.total(1), 0);
-        Check.same("planned panes", hall.panes(0, 1), 0);
-        Check.same("area of unplanned sheets", hall.area(0), 10_000);
-        Check.refuses("nodes of a sheet without a plan", IllegalStateException.class, () -> hall.nodes(0));
+    /** "it is as wide as the pane that is taken; its other spots are on top ..., the room as wide as the column". */
+    private static void otherSpotsAreAsWideAsTheColumn() {
+        Check.same("just as wide as the column",
+                strips(130, 80, new int[][] {order(60, 50, 1), order(60, 30, 1)}), "0:0,0,60,50 1:0,50,60,30");
+        Check.same("wider by 1 than the column",
+                strips(130, 80, new int[][] {order(60, 50, 1), order(61, 30, 1)}), "0:0,0,60,50 1:60,0,61,30");
+        Check.same("narrower by 1, and one on top as wide as the column",
+                strips(60, 100, new int[][] {order(60, 50, 1), order(59, 30, 1), order(60, 20, 1)}),
+                "0:0,0,60,50 1:0,50,59,30 2:0,80,60,20");
     }
 
-    private static void wholeSheetIsAPane() {
-        GlassHall hall = new GlassHall();
-        hall.order(40, 30, true, 2);
-        hall.sheet(40, 30);
-        hall.sheet(30, 40);
-        hall.plan(0);
-        hall.plan(1);
-        Trees.areAs("a pane as it is", hall, 0, "P 0 0 40 30 0 -1 -1 1");
-        Trees.areAs("a turned pane", hall, 1, "P 0 0 30 40 0 -1 -1 1");
+    private static void otherSpotsHaveRoomUpToTheUpperEdge() {
+        int[][] two = {order(60, 50, 1), order(60, 30, 1)};
+        Check.same("just as high as what is left", strips(60, 80, two), "0:0,0,60,50 1:0,50,60,30");
+        Check.same("higher by 1 than what is left", strips(60, 79, two), "0:0,0,60,50");
+        int[][] three = {order(60, 50, 1), order(60, 20, 1), order(60, 10, 1)};
+        Check.same("a third just as high", strips(60, 80, three), "0:0,0,60,50 1:0,50,60,20 2:0,70,60,10");
+        Check.same("a third higher by 1", strips(60, 79, three), "0:0,0,60,50 1:0,50,60,20");
     }
 
-    private static void thirtySixPanesMakeTheLargestTree() {
-        GlassHall hall = new GlassHall();
-        hall.order(20, 50, false, 6);
-        for (int i = 0; i < 5; i++) {
-            hall.order(10, 9, false, 6);
+    /** "A column ends when no pane is taken": though there is room above a flaw. */
+    private static void aColumnEndsWhereNoPaneIsTaken() {
+        Check.same("a flaw above the first pane",
+                strips(80, 100, new int[][] {order(40, 40, 3)}, flaw(0, 45, 1, 1)),
+                "0:0,0,40,40 0:40,0,40,40 0:40,40,40,40");
+    }
+
+    /** "there are no more when that is at y = 0": though there is room above and at the right. */
+    private static void noColumnComesAfterOneWithoutAPane() {
+        int[][] orders = {order(40, 40, 6)};
+        Check.same("a flaw in the first spot", strips(200, 100, orders, flaw(0, 0, 1, 1)), "none");
+        Check.same("a flaw in the second column", strips(200, 40, orders, flaw(79, 0, 1, 1)), "0:0,0,40,40");
+        Check.same("a flaw beyond the second column", strips(200, 40, orders, flaw(80, 0, 1, 1)),
+                "0:0,0,40,40 0:40,0,40,40");
+    }
+
+    /** "A rectangle MEETS a flaw when they have more than edges in common": the right edge of a pane. */
+    private static void flawsAtTheRightEdgeAreNotMet() {
+        int[][] four = {order(40, 40, 4)};
+        Check.same("a flaw at the right edge", strips(80, 80, four, flaw(40, 0, 1, 40)), "0:0,0,40,40 0:0,40,40,40");
+        Check.same("a flaw 1 over the right edge", strips(80, 80, four, flaw(39, 0, 1, 40)), "none");
+    }
+
+    private static void flawsAtTheUpperEdgeAreNotMet() {
+        int[][] four = {order(40, 40, 4)};
+        Check.same("a flaw at the upper edge", strips(80, 80, four, flaw(0, 40, 40, 1)),
+                "0:0,0,40,40 0:40,0,40,40 0:40,40,40,40");
+        Check.same("a flaw 1 over the upper edge", strips(80, 80, four, flaw(0, 39, 40, 1)), "none");
+    }
+
+    private static void flawsAtTheLeftEdgeAreNotMet() {
+        int[][] four = {order(40, 40, 4)};
+        Check.same("a flaw at the left edge", strips(80, 80, four, flaw(39, 40, 1, 40)),
+                "0:0,0,40,40 0:40,0,40,40 0:40,40,40,40");
+        Check.same("a flaw 1 over the left edge", strips(80, 80, four, flaw(39, 40, 2, 40)),
+                "0:0,0,40,40 0:40,0,40,40");
+    }
+
+    private static void flawsAtTheLowerEdgeAreNotMet() {
+        int[][] orders = {order(40, 40, 1), order(20, 10, 1), order(40, 8, 1)};
+        Check.same("a flaw at the lower edge", strips(40, 60, orders, flaw(30, 45, 5, 5)),
+                "0:0,0,40,40 1:0,40,20,10 2:0,50,40,8");
+        Check.same("a flaw 1 over the lower edge", strips(40, 60, orders, flaw(30, 45, 5, 6)),
+                "0:0,0,40,40 1:0,40,20,10");
+    }
+
+    private static void flawsAtACornerAreNotMet() {
+        int[][] four = {order(40, 40, 4)};
+        Check.same("a flaw at the upper right corner", strips(80, 80, four, flaw(40, 40, 1, 1)),
+                "0:0,0,40,40 0:0,40,40,40 0:40,0,40,40");
+        Check.same("a flaw in the upper right corner", strips(80, 80, four, flaw(39, 39, 1, 1)), "none");
+        Check.same("a flaw at the right of all", strips(81, 80, four, flaw(80, 0, 1, 80)),
+                "0:0,0,40,40 0:0,40,40,40 0:40,0,40,40 0:40,40,40,40");
+    }
+
+    private static void flawsInsideAndAroundAreMet() {
+        int[][] four = {order(40, 40, 4)};
+        Check.same("a flaw inside the pane", strips(80, 80, four, flaw(20, 20, 1, 1)), "none");
+        Check.same("a flaw around the pane", strips(80, 80, four, flaw(0, 0, 80, 80)), "none");
+        Check.same("a flaw as large as the pane", strips(80, 80, four, flaw(0, 0, 40, 40)), "none");
+        Check.same("a flaw from left to right", strips(80, 80, four, flaw(0, 20, 80, 1)), "none");
+        Check.same("a flaw from below to above", strips(80, 80, four, flaw(20, 0, 1, 80)), "none");
+    }
+
+    private static void everyFlawCounts() {
+        for (int bad = 0; bad < 6; bad++) {
+            int[][] flaws = new int[6][];
+            for (int k = 0; k < 6; k++) {
+                flaws[k] = k == bad ? flaw(0, 0, 1, 1) : flaw(79, 79, 1, 1);
+            }
+            Check.same("flaw " + bad + " of six", strips(80, 80, new int[][] {order(40, 40, 1)}, flaws), "none");
         }
-        hall.sheet(121, 99);
+    }
+
+    /** "orders with open panes": planned and done ones are not, and each is taken once. */
+    private static void onlyOpenPanesAreTaken() {
+        Hall hall = hallOf(20, 10, new int[][] {order(10, 10, 3)});
+        hall.sheet(20, 10);
+        Check.same("two of three", hall.plan(0), 2);
+        Check.same("the third", hall.plan(1), 1);
+        hall.score(0);
+        hall.sheet(20, 10);
+        Check.same("planned and done ones", hall.plan(2), 0);
+        hall.cancel(1);
+        Check.same("the third again", hall.plan(2), 1);
+        Check.same("panes", Story.panes(hall, 0), "0 1 2");
+    }
+
+    /** "0, and nothing changes, when there would be none". */
+    private static void noneAndNothingChanges() {
+        Check.leavesAll("plan without orders", h -> h.sheet(10, 10), h -> h.plan(0), 0);
+        Check.leavesAll("plan of a pane too wide by 1", h -> {
+            h.sheet(10, 10);
+            h.order(11, 10, false, 1);
+        }, h -> h.plan(0), 0);
+        Check.leavesAll("plan of a pane too high by 1", h -> {
+            h.sheet(10, 10);
+            h.order(10, 11, true, 1);
+        }, h -> h.plan(0), 0);
+        Check.leavesAll("plan of a sheet with a flaw in its corner", h -> {
+            h.sheet(10, 10);
+            h.order(1, 1, false, 6);
+            h.flaw(0, 0, 0, 1, 1);
+        }, h -> h.plan(0), 0);
+        Check.leavesAll("plan when all panes are planned", h -> {
+            Scenes.planned(h);
+            h.sheet(60, 100);
+        }, h -> h.plan(1), 0);
+        Check.leavesAll("plan when all panes are done", h -> {
+            h.order(10, 10, false, 1);
+            h.sheet(10, 10);
+            h.plan(0);
+            h.score(0);
+            h.sheet(10, 10);
+        }, h -> h.plan(1), 0);
+    }
+
+    private static void aSheetThatHadNoneIsPlannedLater() {
+        Hall hall = Check.hallOf(h -> h.sheet(10, 10));
+        Check.same("plan without orders", hall.plan(0), 0);
+        Check.same("flaw of a sheet that had none", hall.flaw(0, 9, 9, 1, 1), 1);
+        hall.order(9, 9, false, 1);
+        Check.same("plan with an order", hall.plan(0), 1);
+    }
+
+    /** Six orders of six: no more are ever open. */
+    private static void thirtySixPanes() {
+        int[][] orders = new int[6][];
+        orders[0] = order(20, 50, 6);
+        for (int i = 1; i < 6; i++) {
+            orders[i] = order(10, 9, 6);
+        }
+        Hall hall = hallOf(121, 99, orders);
         Check.same("all panes", hall.plan(0), 36);
         Check.same("nodes of all panes", hall.nodes(0), 145);
-        Check.same("the last node is the rest", hall.node(0, 144, 3), 1);
+        Check.same("width of the last rest", hall.node(0, 144, 3), 1);
         for (int i = 0; i < 72; i++) {
             hall.score(0);
         }
@@ -218,33 +329,25 @@ public final class PlanTest {
         Check.same("waste", hall.area(3), 121 * 99 - 6 * 1000 - 30 * 90);
     }
 
-    private static void planRefuses() {
-        GlassHall hall = new GlassHall();
-        hall.order(10, 10, false, 6);
-        hall.sheet(20, 20);
-        Check.refuses("no sheet", NoSuchElementException.class, () -> hall.plan(1));
-        Check.refuses("a negative id", NoSuchElementException.class, () -> hall.plan(-1));
-        hall.plan(0);
-        Check.refuses("a planned sheet", IllegalStateException.class, () -> hall.plan(0));
-        hall.score(0);
-        Check.refuses("a scored sheet", IllegalStateException.class, () -> hall.plan(0));
+    /** "IllegalState: it is planned". */
+    private static void plannedSheetsAreRefused() {
+        Check.refused("plan of a sheet planned by strips", h -> {
+            Scenes.planned(h);
+            h.order(1, 1, false, 6);
+        }, Check.STATE, h -> h.plan(0));
+        Check.refused("plan of a sheet planned by trying", h -> {
+            h.order(10, 10, false, 3);
+            h.sheet(30, 10);
+            h.exact(0, 0, Hall.NONE, Hall.NONE);
+        }, Check.STATE, h -> h.plan(0));
+        Check.refused("plan of a sheet that is cut", h -> {
+            Scenes.scoredOnce(h);
+            h.order(1, 1, false, 6);
+        }, Check.STATE, h -> h.plan(0));
+        Check.refused("plan of a planned sheet when no pane is open", Scenes::planned, Check.STATE, h -> h.plan(0));
     }
 
-    private static void nodeRefusesInOrder() {
-        GlassHall hall = new GlassHall();
-        hall.order(10, 10, false, 1);
-        hall.sheet(20, 10);
-        hall.sheet(20, 10);
-        hall.plan(0);
-        Check.refuses("node of no sheet", NoSuchElementException.class, () -> hall.node(2, 9, 9));
-        Check.refuses("nodes of no sheet", NoSuchElementException.class, () -> hall.nodes(2));
-        Check.refuses("node of an unplanned sheet", IllegalStateException.class, () -> hall.node(1, 9, 9));
-        Check.refuses("nodes of an unplanned sheet", IllegalStateException.class, () -> hall.nodes(1));
-        Check.refuses("no node", IndexOutOfBoundsException.class, () -> hall.node(0, 3, 9));
-        Check.refuses("a negative node", IndexOutOfBoundsException.class, () -> hall.node(0, -1, 0));
-        Check.refuses("another what", IllegalArgumentException.class, () -> hall.node(0, 0, 9));
-        Check.refuses("a negative what", IllegalArgumentException.class, () -> hall.node(0, 0, -1));
-        hall.cancel(0);
-        Check.refuses("node after cancel", IllegalStateException.class, () -> hall.node(0, 0, 0));
+    private static void noSuchSheetIsRefused() {
+        Check.noSuchSheet("plan", Hall::plan);
     }
 }

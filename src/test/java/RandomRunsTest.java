@@ -1,12 +1,11 @@
 import java.util.Random;
 
-/** All promises: runs of calls, drawn from written seeds, on the program and on the plain hall beside it. */
+/** All promises: runs of 512 calls, drawn from written seeds, on the program and on the plain hall beside it. */
 public final class RandomRunsTest {
-    private static final int RUNS = 4000;
-    private static final int STEPS = 512;
+    private static final int RUNS = 12_000;
 
     private final Random random;
-    private final GlassHall hall = new GlassHall();
+    private final CountedHall hall = new CountedHall();
     private final PlainHall plain = new PlainHall();
     private final int unit;
     private final int flawsSeldom;
@@ -16,35 +15,45 @@ public final class RandomRunsTest {
         random = new Random(seed);
         unit = new int[] {1, 1, 50, 100, 997}[random.nextInt(5)];
         flawsSeldom = 1 + random.nextInt(4);
+        log.append("run ").append(seed).append('\n');
     }
 
     public static void main(String[] args) {
-        for (int run = 0; run < RUNS; run++) {
-            if (!new RandomRunsTest(run).agrees()) {
-                break;
-            }
+        for (int run = 0; run < RUNS && Check.allIsAsDue(); run++) {
+            new RandomRunsTest(run).agree();
         }
         Check.end();
     }
 
-    private boolean agrees() {
-        for (int i = 0; i < STEPS; i++) {
-            if (!step() || !accountsAgree()) {
-                return false;
-            }
+    private void agree() {
+        while (hall.callsLeft() > 20 && Check.allIsAsDue()) {
+            step();
+            look();
         }
-        return true;
+        for (int kind = 0; kind <= 6; kind++) {
+            tell("area", kind);
+        }
+        long sum = 0;
+        for (int kind = 0; kind <= 5; kind++) {
+            sum += plain.area(kind);
+        }
+        Check.same("all areas together", sum, plain.area(6));
+        while (hall.callsLeft() > 0) {
+            tell("total", small(5));
+        }
     }
 
-    private boolean same(String call, Check.Call got, Check.Call due) {
-        String answer = Check.outcome(got);
-        String want = Check.outcome(due);
-        log.append(call).append(" = ").append(want).append('\n');
-        if (answer.equals(want)) {
-            return true;
+    private void same(String name, Check.Call call, int... arguments) {
+        String answer = Check.outcome(hall, call);
+        String due = Check.outcome(plain, call);
+        log.append(name);
+        for (int argument : arguments) {
+            log.append(' ').append(argument);
         }
-        Check.tell(log + "the last call answered " + answer);
-        return false;
+        log.append(" = ").append(due).append('\n');
+        if (!answer.equals(due)) {
+            Check.tell(log + "the last call answered " + answer);
+        }
     }
 
     private int length() {
@@ -60,121 +69,132 @@ public final class RandomRunsTest {
 
     /** Mostly one of the newest sheets, as these are there. */
     private int id() {
-        return Math.max(-1, hall.total(4) - random.nextInt(9));
+        return Math.max(-1, plain.total(4) - random.nextInt(9));
     }
 
-    private boolean step() {
+    private void step() {
         int id = id();
         switch (random.nextInt(16)) {
             case 0:
-                return trySheet(length() + unit * random.nextInt(10), length() + unit * random.nextInt(10));
             case 1:
-                return random.nextInt(flawsSeldom) > 0
-                        || tryFlaw(id, length() - unit, length() - unit, length(), length());
+                makeSheet(length() + unit * random.nextInt(10), length() + unit * random.nextInt(10));
+                break;
             case 2:
-                return tryOrder(length(), length(), random.nextBoolean(), small(7));
+                makeFlaw(id, length() - unit, length() - unit, length(), length());
+                break;
             case 3:
+                makeOrder(length(), length(), random.nextBoolean(), small(7));
+                break;
             case 4:
-                return same("plan(" + id + ")", () -> hall.plan(id), () -> plain.plan(id)) && treeAgrees(id);
             case 5:
+                same("plan", h -> h.plan(id), id);
+                break;
             case 6:
-                return tryExact(id, small(6), small(6), small(6)) && treeAgrees(id);
             case 7:
-                return tryNode(id, small(30), small(9));
+                tryExact(id, small(6), small(6), small(6));
+                break;
             case 8:
             case 9:
             case 10:
-                return same("score(" + id + ")", () -> hall.score(id), () -> plain.score(id)) && treeAgrees(id);
             case 11:
-                return tryBroke(id, small(random.nextInt(20) + 1)) && treeAgrees(id);
+                same("score", h -> h.score(id), id);
+                break;
             case 12:
-                return same("cancel(" + id + ")", () -> hall.cancel(id), () -> plain.cancel(id));
+                breakNode(id, small(random.nextInt(20) + 1));
+                break;
             case 13:
-                return tryUse(small(4));
-            case 14:
-                return tryFit(length(), length()) && tryRack(small(10), small(3));
+                same("cancel", h -> h.cancel(id), id);
+                break;
             default:
-                return tryFlawed(id, small(6), small(4)) && tryPanes(small(6), small(3));
+                useOffcut(small(4));
+                break;
         }
     }
 
-    private boolean trySheet(int w, int h) {
-        return same("sheet(" + w + ", " + h + ")", () -> hall.sheet(w, h), () -> plain.sheet(w, h));
+    private void makeSheet(int w, int h) {
+        same("sheet", a -> a.sheet(w, h), w, h);
     }
 
-    private boolean tryFlaw(int id, int x, int y, int w, int h) {
-        return same("flaw(" + id + ", " + x + ", " + y + ", " + w + ", " + h + ")", () -> hall.flaw(id, x, y, w, h),
-                () -> plain.flaw(id, x, y, w, h));
-    }
-
-    private boolean tryOrder(int w, int h, boolean turn, int n) {
-        return same("order(" + w + ", " + h + ", " + turn + ", " + n + ")", () -> hall.order(w, h, turn, n),
-                () -> plain.order(w, h, turn, n));
-    }
-
-    private boolean tryExact(int id, int a, int b, int c) {
-        return same("exact(" + id + ", " + a + ", " + b + ", " + c + ")", () -> hall.exact(id, a, b, c),
-                () -> plain.exact(id, a, b, c));
-    }
-
-    private boolean tryNode(int id, int i, int what) {
-        return same("node(" + id + ", " + i + ", " + what + ")", () -> hall.node(id, i, what),
-                () -> plain.node(id, i, what));
-    }
-
-    private boolean tryBroke(int id, int node) {
-        return same("broke(" + id + ", " + node + ")", () -> hall.broke(id, node), () -> plain.broke(id, node));
-    }
-
-    private boolean tryUse(int k) {
-        return same("use(" + k + ")", () -> hall.use(k), () -> plain.use(k));
-    }
-
-    private boolean tryFit(int w, int h) {
-        return same("fit(" + w + ", " + h + ")", () -> hall.fit(w, h), () -> plain.fit(w, h));
-    }
-
-    private boolean tryRack(int k, int what) {
-        return same("rack(" + k + ", " + what + ")", () -> hall.rack(k, what), () -> plain.rack(k, what));
-    }
-
-    private boolean tryFlawed(int id, int k, int what) {
-        return same("flawed(" + id + ", " + k + ", " + what + ")", () -> hall.flawed(id, k, what),
-                () -> plain.flawed(id, k, what));
-    }
-
-    private boolean tryPanes(int order, int what) {
-        return same("panes(" + order + ", " + what + ")", () -> hall.panes(order, what),
-                () -> plain.panes(order, what));
-    }
-
-    private boolean treeAgrees(int id) {
-        if (!same("nodes(" + id + ")", () -> hall.nodes(id), () -> plain.nodes(id))) {
-            return false;
+    private void makeFlaw(int id, int x, int y, int w, int h) {
+        if (random.nextInt(flawsSeldom) == 0) {
+            same("flaw", a -> a.flaw(id, x, y, w, h), id, x, y, w, h);
         }
-        String told = Check.outcome(() -> hall.nodes(id));
-        int nodes = told.charAt(0) == 't' ? 0 : Integer.parseInt(told);
-        for (int i = 0; i < nodes; i++) {
-            for (int what = 0; what <= 8; what++) {
-                if (hall.node(id, i, what) != plain.node(id, i, what)) {
-                    return tryNode(id, i, what);
-                }
-            }
-        }
-        return true;
     }
 
-    private boolean accountsAgree() {
-        long sum = 0;
-        for (int kind = 0; kind <= 6; kind++) {
-            int k = kind;
-            if (hall.area(k) != plain.area(k) || hall.total(k) != plain.total(k)) {
-                return same("area(" + k + ")", () -> hall.area(k), () -> plain.area(k))
-                        & same("total(" + k + ")", () -> hall.total(k), () -> plain.total(k));
-            }
-            sum += k < 6 ? hall.area(k) : -hall.area(k);
+    private void makeOrder(int w, int h, boolean turn, int n) {
+        same("order", a -> a.order(w, h, turn, n), w, h, turn ? 1 : 0, n);
+    }
+
+    private void tryExact(int id, int a, int b, int c) {
+        same("exact", h -> h.exact(id, a, b, c), id, a, b, c);
+    }
+
+    private void breakNode(int id, int node) {
+        same("broke", h -> h.broke(id, node), id, node);
+    }
+
+    private void useOffcut(int k) {
+        same("use", h -> h.use(k), k);
+    }
+
+    /** A call or two that change nothing. */
+    private void look() {
+        int id = id();
+        switch (random.nextInt(8)) {
+            case 0:
+                tell("area", small(7));
+                break;
+            case 1:
+                tell("total", small(5));
+                break;
+            case 2:
+                tellPanes(small(plain.total(2)), small(3));
+                break;
+            case 3:
+                tellOffcut(small(plain.total(3)), small(3));
+                break;
+            case 4:
+                tellFit(length(), length());
+                break;
+            case 5:
+                tellFlaw(id, small(6), small(4));
+                break;
+            default:
+                tellTree(id);
+                break;
         }
-        Check.same("all areas together, less what was made", sum, 0);
-        return sum == 0;
+    }
+
+    private void tell(String name, int what) {
+        same(name, h -> name.equals("area") ? h.area(what) : h.total(what), what);
+    }
+
+    private void tellPanes(int order, int what) {
+        same("panes", h -> h.panes(order, what), order, what);
+    }
+
+    private void tellOffcut(int k, int what) {
+        same("rack", h -> h.rack(k, what), k, what);
+    }
+
+    private void tellFit(int w, int h) {
+        same("fit", a -> a.fit(w, h), w, h);
+    }
+
+    private void tellFlaw(int id, int k, int what) {
+        same("flawed", h -> h.flawed(id, k, what), id, k, what);
+    }
+
+    private void tellTree(int id) {
+        same("nodes", h -> h.nodes(id), id);
+        String nodes = Check.outcome(plain, h -> h.nodes(id));
+        int count = nodes.startsWith("throws") ? 0 : Integer.parseInt(nodes);
+        for (int i = 0; i < 3 && count > 0; i++) {
+            tellNode(id, small(count), small(9));
+        }
+    }
+
+    private void tellNode(int id, int i, int what) {
+        same("node", h -> h.node(id, i, what), id, i, what);
     }
 }

@@ -1,167 +1,129 @@
-import java.util.NoSuchElementException;
-
-/** Promises 9 (score), 10 (broke) and 11 (cancel). */
+/** Promise 9, score, and what the terms say of scoring. */
 public final class ScoreTest {
     public static void main(String[] args) {
-        cutsComeInTheOrderOfNodes();
+        theFirstCutThatWaitsIsCut();
+        bothPartsWait();
+        panesThatWouldWaitAreDone();
+        restsThatWouldWaitAreOver();
         aWholePaneIsTaken();
-        aNewPlanBeginsAnew();
-        scoreRefuses();
-        piecesThatWaitBreak();
-        aWholeSheetBreaks();
-        theLastPieceBreaks();
-        brokeRefusesInOrder();
-        cancelOpensPanes();
-        cancelRefuses();
+        theSheetGoesWhenNothingWaits();
+        brokenPiecesAreNotCut();
+        sheetsAreCutOneByOne();
+        notPlannedIsRefused();
+        noSuchSheetIsRefused();
         Check.end();
     }
 
-    /** Nodes: 0 X, 1 -, 2 pane, 3 -, 4 pane, 5 rest, 6 -, 7 pane, 8 rest. */
-    private static GlassHall plannedHall() {
-        GlassHall hall = new GlassHall();
-        hall.order(30, 40, false, 3);
-        hall.sheet(60, 100);
-        hall.plan(0);
-        return hall;
+    /** "TO SCORE is to cut the first node that waits and is a cut"; "Scores once: the node". */
+    private static void theFirstCutThatWaitsIsCut() {
+        Hall hall = Check.hallOf(Scenes::planned);
+        Check.same("first", hall.score(0), 0);
+        Check.same("second", hall.score(0), 1);
+        Check.same("third", hall.score(0), 3);
+        Check.same("last", hall.score(0), 6);
     }
 
-    private static String states(GlassHall hall) {
-        StringBuilder text = new StringBuilder();
-        for (int i = 0; i < hall.nodes(0); i++) {
-            text.append(hall.node(0, i, 8));
-        }
-        return text.toString();
+    /** "it is over, and both parts wait". */
+    private static void bothPartsWait() {
+        Hall hall = Check.hallOf(Scenes::planned);
+        Check.same("states at first", Trees.states(hall, 0), "100000000");
+        hall.score(0);
+        Check.same("states after a cut", Trees.states(hall, 0), "210000100");
     }
 
-    private static void cutsComeInTheOrderOfNodes() {
-        GlassHall hall = plannedHall();
-        Check.same("states at first", states(hall), "100000000");
-        Check.same("first score", hall.score(0), 0);
-        Check.same("states after it", states(hall), "210000100");
-        Check.same("second score", hall.score(0), 1);
-        Check.same("states after it", states(hall), "222100100");
-        Check.same("done panes", hall.panes(0, 2), 1);
-        Check.same("third score", hall.score(0), 3);
-        Check.same("states after it", states(hall), "222222100");
+    /** "A pane that would wait is done, and over". */
+    private static void panesThatWouldWaitAreDone() {
+        Hall hall = Check.hallOf(Scenes::scoredOnce);
+        hall.score(0);
+        Check.same("states", Trees.states(hall, 0), "222100100");
+        Check.same("panes", Story.panes(hall, 0), "0 2 1");
+        Check.same("area of done panes", hall.area(1), 1200);
+        Hall both = Check.hallOf(h -> {
+            h.order(10, 10, false, 2);
+            h.sheet(20, 10);
+            h.plan(0);
+        });
+        Check.same("a cut between two panes", both.score(0), 0);
+        Check.same("panes", Story.panes(both, 0), "0 0 2");
+        Check.same("sheets", both.total(0), 0);
+    }
+
+    /** "a rest that would wait is over". */
+    private static void restsThatWouldWaitAreOver() {
+        Hall hall = Check.hallOf(Scenes::scoredOnce);
+        hall.score(0);
+        hall.score(0);
+        Check.same("states", Trees.states(hall, 0), "222222100");
         Check.same("waste", hall.area(3), 600);
-        Check.same("last score", hall.score(0), 6);
-        Check.same("sheets", hall.total(0), 0);
-        Check.same("done panes at last", hall.panes(0, 2), 3);
-        Check.same("waste at last", hall.area(3), 600 + 1800);
-        Check.refuses("a sheet that is gone", NoSuchElementException.class, () -> hall.score(0));
     }
 
+    /** "or, when the whole sheet is a pane, that is taken". */
     private static void aWholePaneIsTaken() {
-        GlassHall hall = new GlassHall();
+        Hall hall = new CountedHall();
         hall.order(400, 300, false, 1);
         hall.sheet(400, 300);
         hall.plan(0);
         Check.same("score of a whole pane", hall.score(0), 0);
-        Check.same("done panes", hall.panes(0, 2), 1);
+        Check.same("panes", Story.panes(hall, 0), "0 0 1");
         Check.same("area of done panes", hall.area(1), 120_000);
         Check.same("sheets", hall.total(0), 0);
         Check.same("offcuts", hall.total(3), 0);
     }
 
-    private static void aNewPlanBeginsAnew() {
-        GlassHall hall = plannedHall();
+    /** "When nothing waits any more, the sheet is not there any more". */
+    private static void theSheetGoesWhenNothingWaits() {
+        Hall hall = Check.hallOf(Scenes::planned);
         for (int i = 0; i < 3; i++) {
             hall.score(0);
+            Check.same("sheets while one piece waits", hall.total(0), 1);
         }
-        hall.broke(0, 6);
-        hall.order(30, 40, false, 2);
-        int id = hall.sheet(60, 100);
-        hall.plan(id);
-        for (int i = 1; i < hall.nodes(id); i++) {
-            Check.same("state of a node to come", hall.node(id, i, 8), 0);
-        }
-        Check.same("panes of the new plan", hall.cancel(id), 3);
-    }
-
-    private static void scoreRefuses() {
-        GlassHall hall = plannedHall();
-        hall.sheet(10, 10);
-        Check.refuses("no sheet", NoSuchElementException.class, () -> hall.score(2));
-        Check.refuses("a sheet without a plan", IllegalStateException.class, () -> hall.score(1));
-    }
-
-    private static void piecesThatWaitBreak() {
-        GlassHall hall = plannedHall();
         hall.score(0);
-        Check.same("panes of node 1", hall.broke(0, 1), 2);
-        Check.same("states after it", states(hall), "233333100");
-        Check.same("open panes", hall.panes(0, 0), 2);
-        Check.same("planned panes", hall.panes(0, 1), 1);
-        Check.same("broken area", hall.area(4), 3000);
-        Check.same("waiting area", hall.area(5), 3000);
-        Check.refuses("it breaks once", IllegalStateException.class, () -> hall.broke(0, 1));
+        Check.same("sheets when nothing waits", hall.total(0), 0);
+        Check.same("planned sheets", hall.total(1), 0);
+        Check.same("score of what is gone", Check.outcome(hall, h -> h.score(0)), "throws NoSuchElementException");
+        Check.same("nodes of what is gone", Check.outcome(hall, h -> h.nodes(0)), "throws NoSuchElementException");
+    }
+
+    private static void brokenPiecesAreNotCut() {
+        Hall hall = Check.hallOf(Scenes::scoredOnce);
+        hall.broke(0, 1);
         Check.same("the next cut", hall.score(0), 6);
         Check.same("sheets", hall.total(0), 0);
-        hall.sheet(30, 80);
-        Check.same("panes that opened are planned again", hall.plan(1), 2);
     }
 
-    private static void aWholeSheetBreaks() {
-        GlassHall hall = plannedHall();
-        Check.same("panes of the whole sheet", hall.broke(0, 0), 3);
-        Check.same("sheets", hall.total(0), 0);
-        Check.same("broken area", hall.area(4), 6000);
-        Check.same("waiting area", hall.area(5), 0);
-        Check.refuses("it is gone", NoSuchElementException.class, () -> hall.broke(0, 0));
-        hall.sheet(30, 40);
+    private static void sheetsAreCutOneByOne() {
+        Hall hall = Check.hallOf(Scenes::planned);
+        hall.order(10, 10, false, 2);
+        hall.sheet(20, 11);
         hall.plan(1);
-        Check.same("panes of a sheet that is a pane", hall.broke(1, 0), 1);
-        Check.same("open panes", hall.panes(0, 0), 3);
-        Check.same("broken area", hall.area(4), 7200);
+        Check.same("a cut of sheet 1", hall.score(1), 0);
+        Check.same("states of sheet 0", Trees.states(hall, 0), "100000000");
+        Check.same("a cut of sheet 0", hall.score(0), 0);
+        Check.same("states of sheet 1", Trees.states(hall, 1), "2100100");
+        Check.same("the next cut of sheet 1", hall.score(1), 1);
     }
 
-    private static void theLastPieceBreaks() {
-        GlassHall hall = plannedHall();
-        hall.score(0);
-        hall.score(0);
-        Check.same("panes of the second column", hall.broke(0, 6), 1);
-        Check.same("states after it", states(hall), "222100333");
-        Check.same("panes of the last piece", hall.broke(0, 3), 1);
-        Check.same("sheets", hall.total(0), 0);
-        Check.same("done panes", hall.panes(0, 2), 1);
-        Check.same("broken area", hall.area(4), 3000 + 1800);
+    /** "IllegalState: it is not planned". */
+    private static void notPlannedIsRefused() {
+        Check.refused("score of a sheet that is not planned", Scenes::oneGoneOnePlannedOneBlank, Check.STATE,
+                h -> h.score(2));
+        Check.refused("score of a sheet that was cancelled", h -> {
+            Scenes.planned(h);
+            h.cancel(0);
+        }, Check.STATE, h -> h.score(0));
+        Check.refused("score of a sheet that had no pane", h -> {
+            h.sheet(10, 10);
+            h.plan(0);
+        }, Check.STATE, h -> h.score(0));
     }
 
-    private static void brokeRefusesInOrder() {
-        GlassHall hall = plannedHall();
-        hall.sheet(10, 10);
-        hall.score(0);
-        hall.score(0);
-        Check.refuses("no sheet", NoSuchElementException.class, () -> hall.broke(2, 99));
-        Check.refuses("a sheet without a plan", IllegalStateException.class, () -> hall.broke(1, 99));
-        Check.refuses("no node", IndexOutOfBoundsException.class, () -> hall.broke(0, 9));
-        Check.refuses("a negative node", IndexOutOfBoundsException.class, () -> hall.broke(0, -1));
-        Check.refuses("a node that is over", IllegalStateException.class, () -> hall.broke(0, 0));
-        Check.refuses("a pane that is done", IllegalStateException.class, () -> hall.broke(0, 2));
-        Check.refuses("a node to come", IllegalStateException.class, () -> hall.broke(0, 4));
-        Check.same("broken area", hall.area(4), 0);
-    }
-
-    private static void cancelOpensPanes() {
-        GlassHall hall = plannedHall();
-        Check.same("panes of the plan", hall.cancel(0), 3);
-        Check.same("open panes", hall.panes(0, 0), 3);
-        Check.same("planned sheets", hall.total(1), 0);
-        Check.same("area of unplanned sheets", hall.area(0), 6000);
-        Check.same("waiting area", hall.area(5), 0);
-        Check.same("planned again", hall.plan(0), 3);
-        Check.same("nodes again", hall.nodes(0), 9);
-    }
-
-    private static void cancelRefuses() {
-        GlassHall hall = plannedHall();
-        hall.sheet(10, 10);
-        Check.refuses("no sheet", NoSuchElementException.class, () -> hall.cancel(2));
-        Check.refuses("a sheet without a plan", IllegalStateException.class, () -> hall.cancel(1));
-        hall.score(0);
-        Check.refuses("a scored sheet", IllegalStateException.class, () -> hall.cancel(0));
-        hall.broke(0, 1);
-        Check.refuses("a scored sheet with a broken piece", IllegalStateException.class, () -> hall.cancel(0));
-        Check.same("planned panes", hall.panes(0, 1), 1);
+    private static void noSuchSheetIsRefused() {
+        Check.noSuchSheet("score", Hall::score);
+        Check.refused("score of a sheet that is cut up", h -> {
+            Scenes.planned(h);
+            for (int i = 0; i < 4; i++) {
+                h.score(0);
+            }
+        }, Check.ELEMENT, h -> h.score(0));
     }
 }

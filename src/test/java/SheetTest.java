@@ -1,145 +1,166 @@
-import java.util.NoSuchElementException;
-
-/** Promises 2 (sheet), 3 (flaw) and 15 (flawed). */
+/** Promise 2, sheet, and what the terms say of sheets. */
 public final class SheetTest {
-    private static final int MAX = Integer.MAX_VALUE;
-    private static final int MIN = Integer.MIN_VALUE;
+    private static final int[] LENGTHS = {1, 2, 5999, 6000};
+    private static final int[] NO_LENGTHS = {0, -1, 6001, 65537, Check.MIN, Check.MAX};
 
     public static void main(String[] args) {
-        sheetsHaveLimits();
-        eightSheetsAtATime();
-        idsAreNeverGivenTwice();
-        flawsAreTold();
-        flawsLieWhollyInTheSheet();
-        sixFlawsAtMost();
-        plannedSheetsTakeNoFlaw();
-        newSheetsHaveNoFlaws();
-        flawRefusesInOrder();
-        flawedRefusesInOrder();
+        widthIsFrom1To6000();
+        heightIsFrom1To6000();
+        bothAreFrom1To6000();
+        theEighthIsTakenTheNinthIsRefused();
+        plannedSheetsAreAmongTheEight();
+        sheetsThatAreCutAreAmongTheEight();
+        sheetsOfOffcutsAreAmongTheEight();
+        aSheetThatIsGoneMakesRoomForOne();
+        aWrongSizeIsToldBeforeEight();
+        idsCountFrom0();
+        idsAreNotGivenTwice();
+        refusedSheetsTakeNoId();
         Check.end();
     }
 
-    private static void sheetsHaveLimits() {
-        GlassHall hall = new GlassHall();
-        int[][] wrong = {{0, 5}, {5, 0}, {-1, 5}, {5, -1}, {6001, 5}, {5, 6001}, {MAX, MAX}, {MIN, MIN}};
-        for (int[] size : wrong) {
-            Check.refuses("sheet of " + size[0] + " x " + size[1], IllegalArgumentException.class,
-                    () -> hall.sheet(size[0], size[1]));
+    /** "IllegalArgument: width or height is not 1 .. 6000": the width. */
+    private static void widthIsFrom1To6000() {
+        for (int w : LENGTHS) {
+            Hall hall = new CountedHall();
+            Check.same("sheet(" + w + ", 10)", hall.sheet(w, 10), 0);
+            Check.same("its area", hall.area(0), 10L * w);
+            hall.order(w, 10, false, 1);
+            hall.plan(0);
+            Trees.areAs("a pane of its size", hall, 0, "P 0 0 " + w + " 10 0 -1 -1 1");
         }
-        Check.same("sheets after refused ones", hall.total(4), 0);
-        Check.same("the largest sheet", hall.sheet(6000, 6000), 0);
-        Check.same("the smallest sheet", hall.sheet(1, 1), 1);
+        for (int w : NO_LENGTHS) {
+            Check.refused("sheet(" + w + ", 10)", Scenes::empty, Check.ARGUMENT, h -> h.sheet(w, 10));
+        }
+    }
+
+    /** "IllegalArgument: width or height is not 1 .. 6000": the height. */
+    private static void heightIsFrom1To6000() {
+        for (int h : LENGTHS) {
+            Hall hall = new CountedHall();
+            Check.same("sheet(10, " + h + ")", hall.sheet(10, h), 0);
+            Check.same("its area", hall.area(0), 10L * h);
+            hall.order(10, h, false, 1);
+            hall.plan(0);
+            Trees.areAs("a pane of its size", hall, 0, "P 0 0 10 " + h + " 0 -1 -1 1");
+        }
+        for (int h : NO_LENGTHS) {
+            Check.refused("sheet(10, " + h + ")", Scenes::empty, Check.ARGUMENT, hall -> hall.sheet(10, h));
+        }
+    }
+
+    private static void bothAreFrom1To6000() {
+        Hall hall = new CountedHall();
+        Check.same("the smallest sheet", hall.sheet(1, 1), 0);
+        Check.same("the largest sheet", hall.sheet(6000, 6000), 1);
         Check.same("the narrowest sheet", hall.sheet(1, 6000), 2);
-        Check.same("area of sheets", hall.area(0), 36_000_000L + 1 + 6000);
+        Check.same("the lowest sheet", hall.sheet(6000, 1), 3);
+        Check.same("their area", hall.area(0), 1 + 36_000_000 + 6000 + 6000);
+        for (int n : NO_LENGTHS) {
+            Check.refused("sheet(" + n + ", " + n + ")", Scenes::empty, Check.ARGUMENT, h -> h.sheet(n, n));
+        }
     }
 
-    private static void eightSheetsAtATime() {
-        GlassHall hall = new GlassHall();
+    /** "at most 8 are there at a time"; "IllegalState: there are 8". */
+    private static void theEighthIsTakenTheNinthIsRefused() {
+        Hall hall = Check.hallOf(h -> Scenes.sheets(h, 7));
+        Check.same("the eighth sheet", hall.sheet(10, 10), 7);
+        Check.same("sheets", hall.total(0), 8);
+        Check.refused("a ninth sheet", h -> Scenes.sheets(h, 8), Check.STATE, h -> h.sheet(10, 10));
+    }
+
+    private static void plannedSheetsAreAmongTheEight() {
+        Check.refused("a sheet beside seven and a planned one", h -> {
+            Scenes.planned(h);
+            Scenes.sheets(h, 7);
+        }, Check.STATE, h -> h.sheet(10, 10));
+    }
+
+    private static void sheetsThatAreCutAreAmongTheEight() {
+        Check.refused("a sheet beside seven and one that is cut", h -> {
+            Scenes.scoredOnce(h);
+            Scenes.sheets(h, 7);
+        }, Check.STATE, h -> h.sheet(10, 10));
+    }
+
+    private static void sheetsOfOffcutsAreAmongTheEight() {
+        Hall hall = Check.hallOf(SheetTest::anOffcutThatIsASheetAndSixMore);
+        Check.same("the eighth, beside one of an offcut", hall.sheet(10, 10), 8);
+        Check.refused("a ninth, beside one of an offcut", h -> {
+            anOffcutThatIsASheetAndSixMore(h);
+            h.sheet(10, 10);
+        }, Check.STATE, h -> h.sheet(10, 10));
+    }
+
+    private static void anOffcutThatIsASheetAndSixMore(Hall hall) {
+        Scenes.offcuts(hall, 1);
+        hall.use(0);
+        Scenes.sheets(hall, 6);
+    }
+
+    /** "When nothing waits any more, the sheet is not there any more": there is room for one again, not for two. */
+    private static void aSheetThatIsGoneMakesRoomForOne() {
+        Hall hall = Check.hallOf(SheetTest::oneOfEightIsGone);
+        Check.same("sheets when one is gone", hall.total(0), 7);
+        Check.same("a sheet in its room", hall.sheet(20, 30), 8);
+        Check.same("its area, and that of the others", hall.area(0), 700 + 600);
+        Check.refused("a sheet more", h -> {
+            oneOfEightIsGone(h);
+            h.sheet(20, 30);
+        }, Check.STATE, h -> h.sheet(10, 10));
+    }
+
+    private static void oneOfEightIsGone(Hall hall) {
+        Scenes.sheets(hall, 8);
+        hall.order(10, 10, false, 1);
+        hall.plan(3);
+        hall.score(3);
+    }
+
+    /** "the first that is so, in the order in which it is told": the size before the eight. */
+    private static void aWrongSizeIsToldBeforeEight() {
+        for (int n : NO_LENGTHS) {
+            Check.refused("a ninth sheet of a wrong width", h -> Scenes.sheets(h, 8), Check.ARGUMENT,
+                    h -> h.sheet(n, 10));
+            Check.refused("a ninth sheet of a wrong height", h -> Scenes.sheets(h, 8), Check.ARGUMENT,
+                    h -> h.sheet(10, n));
+        }
+    }
+
+    /** "SHEETS have ids, from 0 on". */
+    private static void idsCountFrom0() {
+        Hall hall = new CountedHall();
         for (int i = 0; i < 8; i++) {
-            Check.same("id", hall.sheet(10, 10), i);
+            Check.same("id", hall.sheet(10 + i, 10), i);
         }
-        Check.refuses("a ninth sheet", IllegalStateException.class, () -> hall.sheet(10, 10));
-        Check.refuses("a ninth sheet of a wrong size", IllegalArgumentException.class, () -> hall.sheet(0, 10));
-        Check.same("sheets ever", hall.total(4), 8);
-        Check.same("area made", hall.area(6), 800);
     }
 
-    private static void idsAreNeverGivenTwice() {
-        GlassHall hall = new GlassHall();
-        hall.order(10, 10, false, 6);
-        for (int i = 0; i < 6; i++) {
-            Check.same("id", hall.sheet(10, 10), i);
-            hall.plan(i);
-            hall.score(i);
+    /** "never given twice": not that of a sheet that is cut up, nor of one that broke, nor of one of an offcut. */
+    private static void idsAreNotGivenTwice() {
+        Hall hall = new CountedHall();
+        hall.order(1, 1, false, 1);
+        for (int id = 0; id < 20; id++) {
+            Check.same("id after one that broke", hall.sheet(1, 1), id);
+            hall.plan(id);
+            hall.broke(id, 0);
         }
-        Check.same("sheets there", hall.total(0), 0);
-        Check.same("id after six are gone", hall.sheet(10, 10), 6);
-        Check.refuses("a sheet that is gone", NoSuchElementException.class, () -> hall.plan(5));
+        Scenes.offcut(hall, 0, 300, 300);
+        Check.same("id of an offcut", hall.use(0), 21);
+        Check.same("id of one that is cut up", hall.sheet(1, 1), 22);
+        hall.plan(22);
+        hall.score(22);
+        Check.same("id after it", hall.sheet(10, 10), 23);
+        Check.same("sheets ever", hall.total(4), 24);
     }
 
-    private static void flawsAreTold() {
-        GlassHall hall = new GlassHall();
-        hall.sheet(5, 5);
-        int id = hall.sheet(100, 200);
-        Check.same("first flaw", hall.flaw(id, 10, 20, 30, 40), 1);
-        Check.same("flaw of the whole sheet", hall.flaw(id, 0, 0, 100, 200), 2);
-        for (int what = 0; what < 4; what++) {
-            Check.same("flaw 0, what " + what, hall.flawed(id, 0, what), 10 * (what + 1));
+    /** "a call that throws changes nothing". */
+    private static void refusedSheetsTakeNoId() {
+        Hall hall = new CountedHall();
+        for (int n : NO_LENGTHS) {
+            Check.outcome(hall, h -> h.sheet(n, 10));
+            Check.outcome(hall, h -> h.sheet(10, n));
         }
-        Check.same("width of flaw 1", hall.flawed(id, 1, 2), 100);
-        Check.same("height of flaw 1", hall.flawed(id, 1, 3), 200);
-        Check.refuses("flaw of the other sheet", IndexOutOfBoundsException.class, () -> hall.flawed(0, 0, 0));
-    }
-
-    private static void flawsLieWhollyInTheSheet() {
-        GlassHall hall = new GlassHall();
-        hall.sheet(100, 200);
-        int[][] wrong = {
-            {0, 0, 0, 5}, {0, 0, 5, 0}, {0, 0, -1, 5}, {-1, 0, 5, 5}, {0, -1, 5, 5}, {96, 0, 5, 5}, {0, 196, 5, 5},
-            {100, 0, 1, 1}, {0, 200, 1, 1}, {0, 0, 101, 1}, {0, 0, 1, 201}, {MAX, 0, MAX, 5}, {0, MAX, 5, MAX},
-            {1, 1, MAX, MAX}, {MIN, MIN, MAX, MAX}, {MIN, 0, 1, 1}, {5, 5, MIN, MIN},
-        };
-        for (int[] f : wrong) {
-            Check.refuses("flaw " + f[0] + ", " + f[1] + ", " + f[2] + ", " + f[3], IllegalArgumentException.class,
-                    () -> hall.flaw(0, f[0], f[1], f[2], f[3]));
-        }
-        Check.same("flaw in the upper right corner", hall.flaw(0, 95, 195, 5, 5), 1);
-        Check.same("flaw in the lower left corner", hall.flaw(0, 0, 0, 1, 1), 2);
-    }
-
-    private static void sixFlawsAtMost() {
-        GlassHall hall = new GlassHall();
-        hall.sheet(100, 100);
-        for (int k = 0; k < 6; k++) {
-            Check.same("flaws", hall.flaw(0, k, k, 2, 2), k + 1);
-        }
-        Check.refuses("a seventh flaw", IllegalStateException.class, () -> hall.flaw(0, 0, 0, 1, 1));
-        Check.same("x of the last flaw", hall.flawed(0, 5, 0), 5);
-        Check.refuses("flaw 6", IndexOutOfBoundsException.class, () -> hall.flawed(0, 6, 0));
-    }
-
-    private static void plannedSheetsTakeNoFlaw() {
-        GlassHall hall = new GlassHall();
-        hall.sheet(100, 100);
-        hall.flaw(0, 90, 90, 5, 5);
-        hall.order(10, 10, false, 1);
-        hall.plan(0);
-        Check.refuses("flaw of a planned sheet", IllegalStateException.class, () -> hall.flaw(0, 0, 0, 1, 1));
-        Check.same("flaw of a planned sheet is told", hall.flawed(0, 0, 0), 90);
-        hall.cancel(0);
-        Check.same("flaw after cancel", hall.flaw(0, 0, 0, 1, 1), 2);
-    }
-
-    private static void newSheetsHaveNoFlaws() {
-        GlassHall hall = new GlassHall();
-        hall.order(10, 10, false, 1);
-        hall.sheet(100, 100);
-        hall.flaw(0, 90, 90, 5, 5);
-        hall.plan(0);
-        hall.broke(0, 0);
-        int id = hall.sheet(100, 100);
-        Check.refuses("a flaw of a sheet that is gone", IndexOutOfBoundsException.class, () -> hall.flawed(id, 0, 0));
-        Check.same("the first flaw", hall.flaw(id, 1, 1, 1, 1), 1);
-    }
-
-    private static void flawRefusesInOrder() {
-        GlassHall hall = new GlassHall();
-        hall.sheet(100, 100);
-        hall.order(10, 10, false, 1);
-        hall.plan(0);
-        Check.refuses("no sheet, wrong flaw", NoSuchElementException.class, () -> hall.flaw(1, 0, 0, 0, 0));
-        Check.refuses("a negative id", NoSuchElementException.class, () -> hall.flaw(-1, 0, 0, 1, 1));
-        Check.refuses("planned, wrong flaw", IllegalArgumentException.class, () -> hall.flaw(0, 0, 0, 0, 0));
-    }
-
-    private static void flawedRefusesInOrder() {
-        GlassHall hall = new GlassHall();
-        hall.sheet(100, 100);
-        hall.flaw(0, 0, 0, 1, 1);
-        Check.refuses("no sheet", NoSuchElementException.class, () -> hall.flawed(1, 9, 9));
-        Check.refuses("no flaw", IndexOutOfBoundsException.class, () -> hall.flawed(0, 1, 9));
-        Check.refuses("a negative flaw", IndexOutOfBoundsException.class, () -> hall.flawed(0, -1, 0));
-        Check.refuses("another what", IllegalArgumentException.class, () -> hall.flawed(0, 0, 4));
-        Check.refuses("a negative what", IllegalArgumentException.class, () -> hall.flawed(0, 0, -1));
+        Check.same("id after refused sheets", hall.sheet(10, 10), 0);
+        Check.same("area made", hall.area(6), 100);
     }
 }
