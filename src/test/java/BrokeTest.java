@@ -9,6 +9,7 @@ public final class BrokeTest {
         theLastPieceThatWaitsBreaks();
         restsOfABrokenPieceAreNoOffcuts();
         panesThatAreDoneStayDone();
+        aPaneBesideItStaysDone();
         noSuchSheetIsToldFirst();
         notPlannedIsToldBeforeNoSuchNode();
         noSuchNodeIsRefused();
@@ -102,6 +103,21 @@ public final class BrokeTest {
         Check.same("states", Trees.states(hall, 0), "222333100");
     }
 
+    /** Only what is below it breaks: not the node that comes next, which is a pane here. */
+    private static void aPaneBesideItStaysDone() {
+        Hall hall = new CountedHall();
+        hall.order(30, 20, false, 2);
+        hall.order(20, 40, false, 1);
+        hall.sheet(50, 40);
+        hall.exact(0, 0, 0, 1);
+        hall.score(0);
+        Check.same("states after the cut", Trees.states(hall, 0), "21002");
+        Check.same("panes of the column", hall.broke(0, 1), 2);
+        Check.same("panes of order 0", Story.panes(hall, 0), "2 0 0");
+        Check.same("panes of order 1", Story.panes(hall, 1), "0 0 1");
+        Check.same("sheets", hall.total(0), 0);
+    }
+
     private static void noSuchSheetIsToldFirst() {
         Check.noSuchSheet("broke", (h, id) -> h.broke(id, 0));
         Check.noSuchSheet("broke of no node", (h, id) -> h.broke(id, -1));
@@ -110,8 +126,7 @@ public final class BrokeTest {
     /** "IllegalState: the sheet is not planned; IndexOutOfBounds: there is no such node". */
     private static void notPlannedIsToldBeforeNoSuchNode() {
         for (int node : new int[] {0, -1, 1, 145, Check.MIN, Check.MAX}) {
-            Check.refused("broke(2, " + node + ") of a sheet that is not planned", Scenes::oneGoneOnePlannedOneBlank,
-                    Check.STATE, h -> h.broke(2, node));
+            Check.notPlanned("broke of node " + node, (h, id) -> h.broke(id, node));
         }
     }
 

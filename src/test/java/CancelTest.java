@@ -79,16 +79,7 @@ public final class CancelTest {
 
     /** "IllegalState: it is not planned, or was scored". */
     private static void notPlannedIsRefused() {
-        Check.refused("cancel of a sheet that is not planned", Scenes::oneGoneOnePlannedOneBlank, Check.STATE,
-                h -> h.cancel(2));
-        Check.refused("cancel of a sheet that was cancelled", h -> {
-            Scenes.planned(h);
-            h.cancel(0);
-        }, Check.STATE, h -> h.cancel(0));
-        Check.refused("cancel of a sheet that had no pane", h -> {
-            h.sheet(10, 10);
-            h.plan(0);
-        }, Check.STATE, h -> h.cancel(0));
+        Check.notPlanned("cancel", Hall::cancel);
     }
 
     private static void scoredIsRefused() {

@@ -68,6 +68,20 @@ final class Check {
         }
     }
 
+    /** "IllegalState: it is not planned": never, not any more, or not by a plan that found no pane. */
+    static void notPlanned(String what, SheetCall call) {
+        refused(what + " of a sheet that is not planned", Scenes::oneGoneOnePlannedOneBlank, STATE,
+                hall -> call.answer(hall, 2));
+        refused(what + " of a sheet that was cancelled", hall -> {
+            Scenes.planned(hall);
+            hall.cancel(0);
+        }, STATE, hall -> call.answer(hall, 0));
+        refused(what + " of a sheet that had no pane", hall -> {
+            hall.sheet(10, 10);
+            hall.plan(0);
+        }, STATE, hall -> call.answer(hall, 0));
+    }
+
     /** The answer of a call as a text, or the exception that it throws. */
     static String outcome(Hall hall, Call call) {
         try {

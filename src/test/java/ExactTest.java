@@ -31,6 +31,7 @@ public final class ExactTest {
         noSuchOrderIsToldBeforeTheState();
         plannedSheetsAreRefused();
         sheetsWithFlawsAreRefused();
+        refusedNamesAreForgotten();
         Check.end();
     }
 
@@ -42,18 +43,9 @@ public final class ExactTest {
         return new int[] {w, h, 1, n};
     }
 
-    private static Hall hallOf(int w, int h, int[]... orders) {
-        Hall hall = new CountedHall();
-        hall.sheet(w, h);
-        for (int[] o : orders) {
-            hall.order(o[0], o[1], o[2] == 1, o[3]);
-        }
-        return hall;
-    }
-
     /** Tries one pane of each order, by their numbers, and tells them as they lie, each as order:x,y,w,h. */
     private static String trial(int w, int h, int[]... orders) {
-        Hall hall = hallOf(w, h, orders);
+        Hall hall = Scenes.sheetOf(w, h, orders);
         return panes(hall, hall.exact(0, 0, orders.length > 1 ? 1 : NONE, orders.length > 2 ? 2 : NONE));
     }
 
@@ -77,13 +69,13 @@ public final class ExactTest {
     }
 
     private static void twoPanesAreTried() {
-        Hall hall = hallOf(100, 100, order(30, 20, 2));
+        Hall hall = Scenes.sheetOf(100, 100, new int[][] {order(30, 20, 2)});
         Check.same("an order named twice", panes(hall, hall.exact(0, 0, 0, NONE)), "0:0,0,30,20 0:30,0,30,20");
         Check.same("panes", Story.panes(hall, 0), "0 2 0");
     }
 
     private static void threePanesAreTried() {
-        Hall hall = hallOf(100, 50, order(30, 50, 3));
+        Hall hall = Scenes.sheetOf(100, 50, new int[][] {order(30, 50, 3)});
         Check.same("an order named three times", hall.exact(0, 0, 0, 0), 3);
         Trees.areAs("their tree", hall, 0,
                 "X 0 0 100 50 90 1 6 1",
@@ -98,7 +90,7 @@ public final class ExactTest {
 
     /** "NONE for b and c names none": for one of them, or for both. */
     private static void noneNamesNone() {
-        Hall hall = hallOf(100, 20, order(30, 20, 3), order(10, 20, 3));
+        Hall hall = Scenes.sheetOf(100, 20, new int[][] {order(30, 20, 3), order(10, 20, 3)});
         Check.same("a alone", panes(hall, hall.exact(0, 1, NONE, NONE)), "1:0,0,10,20");
         hall.cancel(0);
         Check.same("a and b", panes(hall, hall.exact(0, 1, 0, NONE)), "1:0,0,10,20 0:10,0,30,20");
@@ -217,13 +209,13 @@ public final class ExactTest {
     }
 
     private static void aColumnHasTwoRows() {
-        Check.same("the third on top of the second", trial(50, 40, order(20, 40, 1), order(30, 20, 1), order(30, 20, 1)),
-                "0:0,0,20,40 1:20,0,30,20 2:20,20,30,20");
+        int[][] orders = {order(20, 40, 1), order(30, 20, 1), order(30, 20, 1)};
+        Check.same("the third on top of the second", trial(50, 40, orders), "0:0,0,20,40 1:20,0,30,20 2:20,20,30,20");
     }
 
     /** "panes of a row stand in the order of naming"; "orders a, b and c, in this order". */
     private static void panesOfARowStandInTheOrderOfNaming() {
-        Hall hall = hallOf(60, 20, order(10, 20, 1), order(20, 20, 1), order(30, 20, 1));
+        Hall hall = Scenes.sheetOf(60, 20, new int[][] {order(10, 20, 1), order(20, 20, 1), order(30, 20, 1)});
         hall.exact(0, 2, 0, 1);
         Trees.areAs("tree in the order of naming", hall, 0,
                 "X 0 0 60 20 30 1 2 1",
@@ -258,7 +250,7 @@ public final class ExactTest {
             h.sheet(29, 29);
             h.order(30, 20, true, 3);
         }, h -> h.exact(0, 0, NONE, NONE), 0);
-        Hall hall = hallOf(89, 20, order(30, 20, 3));
+        Hall hall = Scenes.sheetOf(89, 20, new int[][] {order(30, 20, 3)});
         hall.exact(0, 0, 0, 0);
         Check.same("two of three that did not fit", panes(hall, hall.exact(0, 0, 0, NONE)),
                 "0:0,0,30,20 0:30,0,30,20");
@@ -361,5 +353,17 @@ public final class ExactTest {
             h.order(10, 10, false, 1);
             h.flaw(0, 4, 4, 1, 1);
         }, Check.STATE, h -> h.exact(0, 0, NONE, NONE));
+    }
+
+    /** "a call that throws changes nothing": what comes next is as it would be without it. */
+    private static void refusedNamesAreForgotten() {
+        Hall hall = Check.hallOf(openPanes(1, 2));
+        Check.outcome(hall, h -> h.exact(0, 1, 1, 0));
+        hall.cancel(0);
+        Check.same("three too often", Check.outcome(hall, h -> h.exact(0, 1, 1, 1)), "throws IllegalStateException");
+        Check.same("one of them", panes(hall, hall.exact(0, 0, NONE, NONE)), "0:0,0,10,10");
+        hall.cancel(0);
+        Check.same("no such order", Check.outcome(hall, h -> h.exact(0, 1, 1, 2)), "throws NoSuchElementException");
+        Check.same("strips", panes(hall, hall.plan(0)), "0:0,0,10,10 1:0,10,10,10 1:10,0,10,10");
     }
 }

@@ -8,6 +8,7 @@ public final class FlawTest {
         liesInTheHeightOfTheSheet();
         sumsDoNotWrapAround();
         cornersOfTheSheetAreInIt();
+        cornersOfTheLargestSheetAreInIt();
         theSixthIsTakenTheSeventhIsRefused();
         eachSheetHasItsOwnSix();
         flawsOfAnOffcutAreAmongTheSix();
@@ -114,6 +115,16 @@ public final class FlawTest {
         taken(0, 0, 100, 200);
     }
 
+    private static void cornersOfTheLargestSheetAreInIt() {
+        Hall hall = Check.hallOf(h -> h.sheet(6000, 6000));
+        Check.same("a flaw of all of it", hall.flaw(0, 0, 0, 6000, 6000), 1);
+        Check.same("a flaw in its corner", hall.flaw(0, 5999, 5999, 1, 1), 2);
+        Check.refused("a flaw too wide by 1", h -> h.sheet(6000, 6000), Check.ARGUMENT,
+                h -> h.flaw(0, 0, 0, 6001, 6000));
+        Check.refused("a flaw too high by 1", h -> h.sheet(6000, 6000), Check.ARGUMENT,
+                h -> h.flaw(0, 0, 0, 6000, 6001));
+    }
+
     private static void flaws(Hall hall, int count) {
         blank(hall);
         for (int k = 0; k < count; k++) {
@@ -142,13 +153,7 @@ public final class FlawTest {
     }
 
     private static void offcutWithFlaws(Hall hall, int count) {
-        hall.order(1, 1, false, 1);
-        hall.sheet(301, 300);
-        for (int k = 0; k < count; k++) {
-            hall.flaw(0, 10 + k, 10, 1, 1);
-        }
-        hall.plan(0);
-        hall.score(0);
+        Scenes.flawedOffcut(hall, count);
         hall.use(0);
     }
 

@@ -27,37 +27,33 @@ public final class NodeTest {
     }
 
     private static Hall planned(int w, int h, int[]... orders) {
-        Hall hall = new CountedHall();
-        hall.sheet(w, h);
-        for (int[] o : orders) {
-            hall.order(o[0], o[1], false, o[2]);
-        }
+        Hall hall = Scenes.sheetOf(w, h, orders);
         hall.plan(0);
         return hall;
     }
 
     private static Hall tried(int w, int h, int[]... orders) {
-        Hall hall = new CountedHall();
-        hall.sheet(w, h);
-        for (int[] o : orders) {
-            hall.order(o[0], o[1], false, o[2]);
-        }
+        Hall hall = Scenes.sheetOf(w, h, orders);
         hall.exact(0, 0, orders.length > 1 ? 1 : NONE, orders.length > 2 ? 2 : NONE);
         return hall;
     }
 
+    private static int[] order(int w, int h, int n) {
+        return new int[] {w, h, 0, n};
+    }
+
     private static void aPaneAsLargeAsTheSheetIsNotCut() {
-        Trees.areAs("by strips", planned(40, 30, new int[] {40, 30, 1}), 0, "P 0 0 40 30 0 -1 -1 1");
-        Trees.areAs("by trying", tried(40, 30, new int[] {40, 30, 1}), 0, "P 0 0 40 30 0 -1 -1 1");
+        Trees.areAs("by strips", planned(40, 30, order(40, 30, 1)), 0, "P 0 0 40 30 0 -1 -1 1");
+        Trees.areAs("by trying", tried(40, 30, order(40, 30, 1)), 0, "P 0 0 40 30 0 -1 -1 1");
     }
 
     /** "when the first of them is less wide, CUT crossways at its width ...; otherwise it is that column's piece". */
     private static void aColumnAsWideAsTheSheetIsNotCut() {
-        Trees.areAs("a column just as wide", planned(40, 31, new int[] {40, 30, 1}), 0,
+        Trees.areAs("a column just as wide", planned(40, 31, order(40, 30, 1)), 0,
                 "- 0 0 40 31 30 1 2 1",
                 "P 0 0 40 30 0 -1 -1 0",
                 ". 0 30 40 1 -1 -1 -1 0");
-        Trees.areAs("a column less wide by 1", planned(41, 31, new int[] {40, 30, 1}), 0,
+        Trees.areAs("a column less wide by 1", planned(41, 31, order(40, 30, 1)), 0,
                 "X 0 0 41 31 40 1 4 1",
                 "- 0 0 40 31 30 2 3 0",
                 "P 0 0 40 30 0 -1 -1 0",
@@ -66,11 +62,11 @@ public final class NodeTest {
     }
 
     private static void theLastColumnAsWideAsWhatRemainsIsNotCut() {
-        Trees.areAs("two columns just as wide", planned(70, 30, new int[] {40, 30, 1}, new int[] {30, 30, 1}), 0,
+        Trees.areAs("two columns just as wide", planned(70, 30, order(40, 30, 1), order(30, 30, 1)), 0,
                 "X 0 0 70 30 40 1 2 1",
                 "P 0 0 40 30 0 -1 -1 0",
                 "P 40 0 30 30 1 -1 -1 0");
-        Trees.areAs("two columns less wide by 1", planned(71, 30, new int[] {40, 30, 1}, new int[] {30, 30, 1}), 0,
+        Trees.areAs("two columns less wide by 1", planned(71, 30, order(40, 30, 1), order(30, 30, 1)), 0,
                 "X 0 0 71 30 40 1 2 1",
                 "P 0 0 40 30 0 -1 -1 0",
                 "X 40 0 31 30 30 3 4 0",
@@ -80,22 +76,22 @@ public final class NodeTest {
 
     /** "A column's piece, likewise by its rows: cut lengthways at the first row's height". */
     private static void aRowAsHighAsTheColumnIsNotCut() {
-        Trees.areAs("a row just as high", planned(41, 30, new int[] {40, 30, 1}), 0,
+        Trees.areAs("a row just as high", planned(41, 30, order(40, 30, 1)), 0,
                 "X 0 0 41 30 40 1 2 1",
                 "P 0 0 40 30 0 -1 -1 0",
                 ". 40 0 1 30 -1 -1 -1 0");
-        Trees.areAs("a row less high by 1", planned(40, 31, new int[] {40, 30, 1}), 0,
+        Trees.areAs("a row less high by 1", planned(40, 31, order(40, 30, 1)), 0,
                 "- 0 0 40 31 30 1 2 1",
                 "P 0 0 40 30 0 -1 -1 0",
                 ". 0 30 40 1 -1 -1 -1 0");
     }
 
     private static void theLastRowAsHighAsWhatRemainsIsNotCut() {
-        Trees.areAs("two rows just as high", planned(40, 50, new int[] {40, 30, 1}, new int[] {40, 20, 1}), 0,
+        Trees.areAs("two rows just as high", planned(40, 50, order(40, 30, 1), order(40, 20, 1)), 0,
                 "- 0 0 40 50 30 1 2 1",
                 "P 0 0 40 30 0 -1 -1 0",
                 "P 0 30 40 20 1 -1 -1 0");
-        Trees.areAs("two rows less high by 1", planned(40, 51, new int[] {40, 30, 1}, new int[] {40, 20, 1}), 0,
+        Trees.areAs("two rows less high by 1", planned(40, 51, order(40, 30, 1), order(40, 20, 1)), 0,
                 "- 0 0 40 51 30 1 2 1",
                 "P 0 0 40 30 0 -1 -1 0",
                 "- 0 30 40 21 20 3 4 0",
@@ -103,10 +99,13 @@ public final class NodeTest {
                 ". 0 50 40 1 -1 -1 -1 0");
     }
 
-    /** "A row's piece, likewise by its panes: cut crossways at the first pane's width, into a cell and what remains". */
+    /** "A row's piece, likewise by its panes: cut crossways at the first pane's width, into a cell and ...". */
     private static void aPaneAsWideAsTheRowIsNotCut() {
-        Trees.areAs("a pane less wide by 1 than its row", planned(40, 50, new int[] {40, 30, 1}, new int[] {39, 20, 1}),
-                0,
+        Trees.areAs("a pane just as wide as its row", planned(40, 50, order(40, 30, 1), order(40, 20, 1)), 0,
+                "- 0 0 40 50 30 1 2 1",
+                "P 0 0 40 30 0 -1 -1 0",
+                "P 0 30 40 20 1 -1 -1 0");
+        Trees.areAs("a pane less wide by 1 than its row", planned(40, 50, order(40, 30, 1), order(39, 20, 1)), 0,
                 "- 0 0 40 50 30 1 2 1",
                 "P 0 0 40 30 0 -1 -1 0",
                 "X 0 30 40 20 39 3 4 0",
@@ -115,12 +114,12 @@ public final class NodeTest {
     }
 
     private static void theLastPaneAsWideAsWhatRemainsIsNotCut() {
-        Trees.areAs("a row just as wide", tried(60, 20, new int[] {20, 20, 1}, new int[] {40, 20, 1}), 0,
+        Trees.areAs("a row just as wide", tried(60, 20, order(20, 20, 1), order(40, 20, 1)), 0,
                 "X 0 0 60 20 20 1 2 1",
                 "P 0 0 20 20 0 -1 -1 0",
                 "P 20 0 40 20 1 -1 -1 0");
         Trees.areAs("a row less wide by 1 than its column",
-                tried(61, 40, new int[] {20, 20, 1}, new int[] {40, 20, 1}, new int[] {61, 20, 1}), 0,
+                tried(61, 40, order(20, 20, 1), order(40, 20, 1), order(61, 20, 1)), 0,
                 "- 0 0 61 40 20 1 6 1",
                 "X 0 0 61 20 20 2 3 0",
                 "P 0 0 20 20 0 -1 -1 0",
@@ -132,13 +131,13 @@ public final class NodeTest {
 
     /** "A cell is, when the pane is less high, cut lengthways at the pane's height ...; otherwise it is the pane". */
     private static void aPaneAsHighAsTheCellIsNotCut() {
-        Trees.areAs("the first less high by 1", tried(60, 20, new int[] {20, 19, 1}, new int[] {40, 20, 1}), 0,
+        Trees.areAs("the first less high by 1", tried(60, 20, order(20, 19, 1), order(40, 20, 1)), 0,
                 "X 0 0 60 20 20 1 4 1",
                 "- 0 0 20 20 19 2 3 0",
                 "P 0 0 20 19 0 -1 -1 0",
                 ". 0 19 20 1 -1 -1 -1 0",
                 "P 20 0 40 20 1 -1 -1 0");
-        Trees.areAs("the second less high by 1", tried(60, 20, new int[] {20, 20, 1}, new int[] {40, 19, 1}), 0,
+        Trees.areAs("the second less high by 1", tried(60, 20, order(20, 20, 1), order(40, 19, 1)), 0,
                 "X 0 0 60 20 20 1 2 1",
                 "P 0 0 20 20 0 -1 -1 0",
                 "- 20 0 40 20 19 3 4 0",
@@ -149,7 +148,7 @@ public final class NodeTest {
     /** "A piece that has nothing left is a REST": of columns, of rows, of panes, and of a cell. */
     private static void restsAreWhatHasNothingLeft() {
         Trees.areAs("all kinds of rests",
-                tried(100, 90, new int[] {50, 40, 1}, new int[] {30, 30, 1}, new int[] {85, 20, 1}), 0,
+                tried(100, 90, order(50, 40, 1), order(30, 30, 1), order(85, 20, 1)), 0,
                 "X 0 0 100 90 85 1 12 1",
                 "- 0 0 85 90 40 2 9 0",
                 "X 0 0 85 40 50 3 4 0",
@@ -167,7 +166,7 @@ public final class NodeTest {
 
     /** "numbered from 0, the whole sheet, each before what it is cut into, and all of the first part before ...". */
     private static void nodesAreNumberedFirstPartFirst() {
-        Trees.areAs("tree of strips", planned(100, 90, new int[] {40, 30, 2}, new int[] {25, 20, 1}), 0,
+        Trees.areAs("tree of strips", planned(100, 90, order(40, 30, 2), order(25, 20, 1)), 0,
                 "X 0 0 100 90 40 1 10 1",
                 "- 0 0 40 90 30 2 3 0",
                 "P 0 0 40 30 0 -1 -1 0",
@@ -183,7 +182,7 @@ public final class NodeTest {
 
     /** "where it is cut, from its own left or lower edge". */
     private static void cutsAreToldFromTheirOwnEdges() {
-        Hall hall = planned(100, 100, new int[] {60, 60, 1}, new int[] {30, 50, 2});
+        Hall hall = planned(100, 100, order(60, 60, 1), order(30, 50, 2));
         Trees.areAs("a second column with two rows", hall, 0,
                 "X 0 0 100 100 60 1 4 1",
                 "- 0 0 60 100 60 2 3 0",
@@ -241,15 +240,10 @@ public final class NodeTest {
 
     /** "IllegalState: it is not planned", before the node and the what. */
     private static void notPlannedIsToldBeforeNoSuchNode() {
-        Check.Scene scene = Scenes::oneGoneOnePlannedOneBlank;
-        Check.refused("node of a sheet that is not planned", scene, Check.STATE, h -> h.node(2, 0, 0));
-        Check.refused("no node of it", scene, Check.STATE, h -> h.node(2, -1, 0));
-        Check.refused("another what of it", scene, Check.STATE, h -> h.node(2, 0, 9));
-        Check.refused("another what of no node of it", scene, Check.STATE, h -> h.node(2, 9, -1));
-        Check.refused("node of a sheet that was cancelled", h -> {
-            Scenes.planned(h);
-            h.cancel(0);
-        }, Check.STATE, h -> h.node(0, 0, 0));
+        Check.notPlanned("node", (h, id) -> h.node(id, 0, 0));
+        Check.notPlanned("no node", (h, id) -> h.node(id, -1, 0));
+        Check.notPlanned("another what", (h, id) -> h.node(id, 0, 9));
+        Check.notPlanned("another what of no node", (h, id) -> h.node(id, 9, -1));
     }
 
     private static void noSuchNodeIsToldBeforeAnotherWhat() {
@@ -260,22 +254,13 @@ public final class NodeTest {
 
     /** Promise 8: "IllegalState: it is not planned". */
     private static void nodesOfWhatIsNotPlannedAreRefused() {
-        Check.refused("nodes of a sheet that is not planned", Scenes::oneGoneOnePlannedOneBlank, Check.STATE,
-                h -> h.nodes(2));
-        Check.refused("nodes of a sheet that had no pane", h -> {
-            h.sheet(10, 10);
-            h.plan(0);
-        }, Check.STATE, h -> h.nodes(0));
-        Check.refused("nodes of a sheet that was cancelled", h -> {
-            Scenes.planned(h);
-            h.cancel(0);
-        }, Check.STATE, h -> h.nodes(0));
+        Check.notPlanned("nodes", Hall::nodes);
     }
 
     /** Promise 8: "How many nodes a planned sheet has"; they stay when it is cut. */
     private static void aSheetOfOnePieceHasOneNode() {
-        Check.same("nodes of one pane", planned(40, 30, new int[] {40, 30, 1}).nodes(0), 1);
-        Check.same("nodes of one cut", planned(41, 30, new int[] {40, 30, 1}).nodes(0), 3);
+        Check.same("nodes of one pane", planned(40, 30, order(40, 30, 1)).nodes(0), 1);
+        Check.same("nodes of one cut", planned(41, 30, order(40, 30, 1)).nodes(0), 3);
         Check.same("nodes of three panes", Check.hallOf(Scenes::planned).nodes(0), 9);
         Check.same("nodes after a cut", Check.hallOf(Scenes::scoredOnce).nodes(0), 9);
     }

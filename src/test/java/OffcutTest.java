@@ -113,6 +113,9 @@ public final class OffcutTest {
         hall.use(4);
         Scenes.offcut(hall, 0, 700, 800);
         Check.same("offcuts", hall.total(3), 10);
+        for (int k = 0; k < 9; k++) {
+            Check.same("offcut " + k, Story.offcut(hall, k), (k < 4 ? 300 + k : 301 + k) + " 300 0");
+        }
         Check.same("the new one", Story.offcut(hall, 9), "700 800 0");
         Scenes.offcut(hall, 0, 900, 800);
         Check.same("offcuts after one more", hall.total(3), 10);
@@ -156,18 +159,24 @@ public final class OffcutTest {
 
     /** One pane of 1 x 1 is cut from a sheet of 701 x 600: the rest, from x = 1 on, is a sheet with the id 1 then. */
     private static Hall restOfFlawed(int[]... flaws) {
-        Hall hall = new CountedHall();
-        hall.order(1, 1, false, 1);
-        hall.sheet(701, 600);
-        for (int[] f : flaws) {
-            hall.flaw(0, f[0], f[1], f[2], f[3]);
-        }
+        Hall hall = Scenes.sheetOf(701, 600, new int[][] {{1, 1, 0, 1}}, flaws);
         hall.plan(0);
         hall.score(0);
         String told = Story.offcut(hall, 0);
         hall.use(0);
         String flawsOfSheet = Story.flaws(hall, 1);
         Check.same("the offcut", told, "700 600 " + (flawsOfSheet.split("\n").length - 1));
+        return hall;
+    }
+
+    /** Three cuts, and the two offcuts of these are sheets, 1 and 2. */
+    private static Hall cutThreeTimesAndUse(Hall hall) {
+        hall.plan(0);
+        for (int i = 0; i < 3; i++) {
+            hall.score(0);
+        }
+        hall.use(0);
+        hall.use(0);
         return hall;
     }
 
@@ -186,20 +195,8 @@ public final class OffcutTest {
 
     /** The rests above two columns: of 500 x 310 at 0, 390, and of 400 x 310 at 500, 390; their ids are 1 and 2. */
     private static Hall restsOfTwoColumns(int[]... flaws) {
-        Hall hall = new CountedHall();
-        hall.order(500, 390, false, 1);
-        hall.order(400, 390, false, 1);
-        hall.sheet(900, 700);
-        for (int[] f : flaws) {
-            hall.flaw(0, f[0], f[1], f[2], f[3]);
-        }
-        hall.plan(0);
-        for (int i = 0; i < 3; i++) {
-            hall.score(0);
-        }
-        hall.use(0);
-        hall.use(0);
-        return hall;
+        int[][] orders = {{500, 390, 0, 1}, {400, 390, 0, 1}};
+        return cutThreeTimesAndUse(Scenes.sheetOf(900, 700, orders, flaws));
     }
 
     private static void flawsAtTheRightEdgeAreNotMet() {
@@ -216,20 +213,8 @@ public final class OffcutTest {
 
     /** Beside a pane a rest of 350 x 300 at 350, 310; above it one of 700 x 390 at 0, 610. Their ids are 2 and 1. */
     private static Hall restsOfTwoRows(int[]... flaws) {
-        Hall hall = new CountedHall();
-        hall.order(700, 310, false, 1);
-        hall.order(350, 300, false, 1);
-        hall.sheet(700, 1000);
-        for (int[] f : flaws) {
-            hall.flaw(0, f[0], f[1], f[2], f[3]);
-        }
-        hall.plan(0);
-        for (int i = 0; i < 3; i++) {
-            hall.score(0);
-        }
-        hall.use(0);
-        hall.use(0);
-        return hall;
+        int[][] orders = {{700, 310, 0, 1}, {350, 300, 0, 1}};
+        return cutThreeTimesAndUse(Scenes.sheetOf(700, 1000, orders, flaws));
     }
 
     private static void flawsAtTheLowerAndUpperEdgesAreNotMet() {

@@ -27,7 +27,9 @@ public final class PlanTest {
         onlyOpenPanesAreTaken();
         noneAndNothingChanges();
         aSheetThatHadNoneIsPlannedLater();
+        columnsAndRowsAreAtLeast1();
         thirtySixPanes();
+        thirtySixPanesFillTheLargestSheet();
         plannedSheetsAreRefused();
         noSuchSheetIsRefused();
         Check.end();
@@ -45,21 +47,9 @@ public final class PlanTest {
         return new int[] {x, y, w, h};
     }
 
-    private static Hall hallOf(int w, int h, int[][] orders, int[]... flaws) {
-        Hall hall = new CountedHall();
-        hall.sheet(w, h);
-        for (int[] f : flaws) {
-            hall.flaw(0, f[0], f[1], f[2], f[3]);
-        }
-        for (int[] o : orders) {
-            hall.order(o[0], o[1], o[2] == 1, o[3]);
-        }
-        return hall;
-    }
-
     /** Plans a sheet and tells the panes that are in it, each as order:x,y,w,h. */
     private static String strips(int w, int h, int[][] orders, int[]... flaws) {
-        Hall hall = hallOf(w, h, orders, flaws);
+        Hall hall = Scenes.sheetOf(w, h, orders, flaws);
         int answer = hall.plan(0);
         if (answer == 0) {
             return "none";
@@ -74,6 +64,11 @@ public final class PlanTest {
         Check.same("heights of 20, 21 and 19",
                 strips(30, 21, new int[][] {order(10, 20, 1), order(10, 21, 1), order(10, 19, 1)}),
                 "1:0,0,10,21 0:10,0,10,20 2:20,0,10,19");
+        Check.same("six heights in no order",
+                strips(60, 60, new int[][] {
+                    order(10, 53, 1), order(10, 55, 1), order(10, 51, 1), order(10, 54, 1), order(10, 52, 1),
+                    order(10, 56, 1),
+                }), "5:0,0,10,56 1:10,0,10,55 3:20,0,10,54 0:30,0,10,53 4:40,0,10,52 2:50,0,10,51");
         Check.same("a high narrow one and a low wide one",
                 strips(100, 50, new int[][] {order(90, 10, 1), order(5, 11, 1)}),
                 "1:0,0,5,11 0:5,0,90,10");
@@ -81,9 +76,12 @@ public final class PlanTest {
 
     /** "of the same by falling width". */
     private static void ordersOfTheSameHeightComeByFallingWidth() {
-        Check.same("widths of 20, 21 and 19",
-                strips(60, 20, new int[][] {order(20, 20, 1), order(21, 20, 1), order(19, 20, 1)}),
-                "1:0,0,21,20 0:21,0,20,20 2:41,0,19,20");
+        Check.same("widths of 30, 31 and 29",
+                strips(90, 20, new int[][] {order(30, 20, 1), order(31, 20, 1), order(29, 20, 1)}),
+                "1:0,0,31,20 0:31,0,30,20 2:61,0,29,20");
+        Check.same("widths that are less than the height",
+                strips(90, 40, new int[][] {order(29, 40, 1), order(31, 40, 1), order(30, 40, 1)}),
+                "1:0,0,31,40 2:31,0,30,40 0:61,0,29,40");
     }
 
     /** "of the same by numbers". */
@@ -261,7 +259,7 @@ public final class PlanTest {
 
     /** "orders with open panes": planned and done ones are not, and each is taken once. */
     private static void onlyOpenPanesAreTaken() {
-        Hall hall = hallOf(20, 10, new int[][] {order(10, 10, 3)});
+        Hall hall = Scenes.sheetOf(20, 10, new int[][] {order(10, 10, 3)});
         hall.sheet(20, 10);
         Check.same("two of three", hall.plan(0), 2);
         Check.same("the third", hall.plan(1), 1);
@@ -310,6 +308,17 @@ public final class PlanTest {
         Check.same("plan with an order", hall.plan(0), 1);
     }
 
+    /** The smallest panes there are: columns of 1 wide, rows of 1 high, and what remains of 1. */
+    private static void columnsAndRowsAreAtLeast1() {
+        int[][] orders = {order(1, 1, 5)};
+        Check.same("three columns", strips(3, 1, orders), "0:0,0,1,1 0:1,0,1,1 0:2,0,1,1");
+        Check.same("three rows", strips(1, 3, orders), "0:0,0,1,1 0:0,1,1,1 0:0,2,1,1");
+        Check.same("two columns of two rows, and one more", strips(3, 2, orders),
+                "0:0,0,1,1 0:0,1,1,1 0:1,0,1,1 0:1,1,1,1 0:2,0,1,1");
+        Check.same("round a flaw of 1", strips(2, 2, orders, flaw(0, 1, 1, 1)),
+                "0:0,0,1,1 0:1,0,1,1 0:1,1,1,1");
+    }
+
     /** Six orders of six: no more are ever open. */
     private static void thirtySixPanes() {
         int[][] orders = new int[6][];
@@ -317,7 +326,7 @@ public final class PlanTest {
         for (int i = 1; i < 6; i++) {
             orders[i] = order(10, 9, 6);
         }
-        Hall hall = hallOf(121, 99, orders);
+        Hall hall = Scenes.sheetOf(121, 99, orders);
         Check.same("all panes", hall.plan(0), 36);
         Check.same("nodes of all panes", hall.nodes(0), 145);
         Check.same("width of the last rest", hall.node(0, 144, 3), 1);
@@ -327,6 +336,24 @@ public final class PlanTest {
         Check.same("sheets after all cuts", hall.total(0), 0);
         Check.same("done panes", hall.area(1), 6 * 1000 + 30 * 90);
         Check.same("waste", hall.area(3), 121 * 99 - 6 * 1000 - 30 * 90);
+    }
+
+    private static void thirtySixPanesFillTheLargestSheet() {
+        int[][] orders = new int[6][];
+        for (int i = 0; i < 6; i++) {
+            orders[i] = turning(1000, 1000, 6);
+        }
+        Hall hall = Scenes.sheetOf(6000, 6000, orders);
+        Check.same("all panes", hall.plan(0), 36);
+        Check.same("nodes without a rest", hall.nodes(0), 71);
+        for (int i = 0; i < 35; i++) {
+            hall.score(0);
+        }
+        Check.same("sheets after all cuts", hall.total(0), 0);
+        Check.same("done panes", hall.area(1), 36_000_000);
+        Check.same("waste", hall.area(3), 0);
+        Check.same("the largest sheet is too narrow by 1", Scenes.sheetOf(5999, 6000, orders).plan(0), 30);
+        Check.same("the largest sheet is too low by 1", Scenes.sheetOf(6000, 5999, orders).plan(0), 30);
     }
 
     /** "IllegalState: it is planned". */

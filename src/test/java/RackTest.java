@@ -25,14 +25,8 @@ public final class RackTest {
     /** "how many flaws it has (2)": none to six. */
     private static void tellsHowManyFlaws() {
         for (int flaws = 0; flaws <= 6; flaws++) {
-            Hall hall = new CountedHall();
-            hall.order(1, 1, false, 1);
-            hall.sheet(301, 300);
-            for (int k = 0; k < flaws; k++) {
-                hall.flaw(0, 10 + k, 10, 1, 1);
-            }
-            hall.plan(0);
-            hall.score(0);
+            int count = flaws;
+            Hall hall = Check.hallOf(h -> Scenes.flawedOffcut(h, count));
             Check.same("flaws of the offcut", hall.rack(0, 2), flaws);
         }
     }

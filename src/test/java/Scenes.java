@@ -33,6 +33,19 @@ final class Scenes {
         hall.sheet(60, 100);
     }
 
+    /** A hall with sheet 0, orders (each as width, height, 1 if it may be turned, count) and flaws. */
+    static Hall sheetOf(int w, int h, int[][] orders, int[]... flaws) {
+        Hall hall = new CountedHall();
+        hall.sheet(w, h);
+        for (int[] f : flaws) {
+            hall.flaw(0, f[0], f[1], f[2], f[3]);
+        }
+        for (int[] o : orders) {
+            hall.order(o[0], o[1], o[2] == 1, o[3]);
+        }
+        return hall;
+    }
+
     static void sheets(Hall hall, int count) {
         for (int i = 0; i < count; i++) {
             hall.sheet(10, 10);
@@ -45,6 +58,17 @@ final class Scenes {
         hall.exact(id, order, Hall.NONE, Hall.NONE);
         hall.score(id);
         hall.broke(id, 1);
+    }
+
+    /** The rack has one offcut, of 300 x 300, with so many flaws; a strip of its sheet 0 still waits. */
+    static void flawedOffcut(Hall hall, int flaws) {
+        hall.order(1, 1, false, 1);
+        hall.sheet(301, 300);
+        for (int k = 0; k < flaws; k++) {
+            hall.flaw(0, 10 + k, 10, 1, 1);
+        }
+        hall.plan(0);
+        hall.score(0);
     }
 
     /** Order 0 has one pane of 1 x 1, open; the rack has offcuts of these sizes. */

@@ -1,6 +1,7 @@
 /** Promise 9, score, and what the terms say of scoring. */
 public final class ScoreTest {
     public static void main(String[] args) {
+        atFirstTheWholeSheetWaits();
         theFirstCutThatWaitsIsCut();
         bothPartsWait();
         panesThatWouldWaitAreDone();
@@ -12,6 +13,25 @@ public final class ScoreTest {
         notPlannedIsRefused();
         noSuchSheetIsRefused();
         Check.end();
+    }
+
+    /** "at first the whole sheet waits, all others are to come": also where a sheet was cut up before. */
+    private static void atFirstTheWholeSheetWaits() {
+        Hall hall = Check.hallOf(Scenes::scoredOnce);
+        Check.same("states of the sheet before", Trees.states(hall, 0), "210000100");
+        hall.score(0);
+        hall.broke(0, 3);
+        hall.score(0);
+        hall.order(30, 40, false, 2);
+        hall.sheet(60, 100);
+        hall.plan(1);
+        Check.same("states of a new sheet", Trees.states(hall, 1), "100000000");
+        hall.cancel(1);
+        hall.plan(1);
+        Check.same("states of a new plan", Trees.states(hall, 1), "100000000");
+        hall.cancel(1);
+        hall.exact(1, 1, 1, Hall.NONE);
+        Check.same("states of a plan by trying", Trees.states(hall, 1), "10000");
     }
 
     /** "TO SCORE is to cut the first node that waits and is a cut"; "Scores once: the node". */
@@ -105,16 +125,7 @@ public final class ScoreTest {
 
     /** "IllegalState: it is not planned". */
     private static void notPlannedIsRefused() {
-        Check.refused("score of a sheet that is not planned", Scenes::oneGoneOnePlannedOneBlank, Check.STATE,
-                h -> h.score(2));
-        Check.refused("score of a sheet that was cancelled", h -> {
-            Scenes.planned(h);
-            h.cancel(0);
-        }, Check.STATE, h -> h.score(0));
-        Check.refused("score of a sheet that had no pane", h -> {
-            h.sheet(10, 10);
-            h.plan(0);
-        }, Check.STATE, h -> h.score(0));
+        Check.notPlanned("score", Hall::score);
     }
 
     private static void noSuchSheetIsRefused() {
