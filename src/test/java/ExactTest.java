@@ -14,6 +14,11 @@ public final class ExactTest {
         everyColumnIsNoHigher();
         aRowComesBeforeTwo();
         turnedInTheRowComesBeforeTheNextRow();
+        asItIsComesBeforeTurnedInARow();
+        asItIsComesBeforeTurnedInTheNextRow();
+        asItIsComesBeforeTurnedInAThirdRow();
+        asItIsComesBeforeTurnedInAColumn();
+        asItIsComesBeforeTurnedInARowOfAColumn();
         rowsOfAColumnComeBeforeTheNextColumn();
         theFirstPaneWeighsMost();
         theSecondPaneWeighsMoreThanTheThird();
@@ -162,6 +167,45 @@ public final class ExactTest {
         Check.same("room for the second turned beside", trial(70, 50, orders), "0:0,0,50,20 1:50,0,20,50");
         Check.same("too narrow for it by 1", trial(69, 50, orders), "0:0,0,50,20 1:0,20,50,20");
         Check.same("too low for it by 1", trial(70, 49, orders), "0:0,0,50,20 1:0,20,50,20");
+    }
+
+    /** "and 1 for turned, 0 otherwise": in each place that a pane can have, 0 before 1. */
+    private static void asItIsComesBeforeTurnedInARow() {
+        Check.same("the first, both ways", trial(40, 40, turning(30, 20, 1)), "0:0,0,30,20");
+        Check.same("the second, both ways", trial(50, 40, order(20, 40, 1), turning(30, 20, 1)),
+                "0:0,0,20,40 1:20,0,30,20");
+        Check.same("the second, turned alone", trial(49, 40, order(20, 40, 1), turning(30, 20, 1)),
+                "0:0,0,20,40 1:20,0,20,30");
+    }
+
+    private static void asItIsComesBeforeTurnedInTheNextRow() {
+        Check.same("both ways", trial(50, 60, order(50, 20, 1), turning(40, 30, 1)), "0:0,0,50,20 1:0,20,40,30");
+        Check.same("turned alone", trial(50, 80, order(50, 20, 1), turning(60, 30, 1)), "0:0,0,50,20 1:0,20,30,60");
+    }
+
+    private static void asItIsComesBeforeTurnedInAThirdRow() {
+        Check.same("both ways", trial(50, 80, order(50, 20, 1), order(50, 20, 1), turning(40, 30, 1)),
+                "0:0,0,50,20 1:0,20,50,20 2:0,40,40,30");
+        Check.same("turned alone", trial(50, 100, order(50, 20, 1), order(50, 20, 1), turning(60, 30, 1)),
+                "0:0,0,50,20 1:0,20,50,20 2:0,40,30,60");
+    }
+
+    private static void asItIsComesBeforeTurnedInAColumn() {
+        Check.same("the third, both ways", trial(105, 59, order(60, 20, 1), order(60, 20, 1), turning(40, 45, 1)),
+                "0:0,0,60,20 1:0,20,60,20 2:60,0,40,45");
+        Check.same("the third, turned alone", trial(105, 64, order(60, 20, 1), order(60, 20, 1), turning(60, 45, 1)),
+                "0:0,0,60,20 1:0,20,60,20 2:60,0,45,60");
+        Check.same("the second, both ways", trial(70, 40, order(30, 20, 1), turning(35, 40, 1), order(30, 20, 1)),
+                "0:0,0,30,20 2:0,20,30,20 1:30,0,35,40");
+        Check.same("the second, turned alone", trial(50, 40, order(30, 20, 1), turning(40, 20, 1), order(30, 20, 1)),
+                "0:0,0,30,20 2:0,20,30,20 1:30,0,20,40");
+    }
+
+    private static void asItIsComesBeforeTurnedInARowOfAColumn() {
+        Check.same("both ways", trial(55, 80, order(20, 80, 1), order(30, 20, 1), turning(30, 25, 1)),
+                "0:0,0,20,80 1:20,0,30,20 2:20,20,30,25");
+        Check.same("turned alone", trial(50, 80, order(20, 80, 1), order(30, 20, 1), turning(36, 30, 1)),
+                "0:0,0,20,80 1:20,0,30,20 2:20,20,30,36");
     }
 
     /** "its column before its row": row 1 of column 0 is less than row 0 of column 1. */
